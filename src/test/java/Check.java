@@ -1,0 +1,111 @@
+/** What the tests ask, and how many answers were not as due. */
+final class Check {
+    private static int asked = 0;
+    private static int wrong = 0;
+
+    private Check() { }
+
+    static void same(String what, long got, long want) {
+        asked++;
+        if (got != want) {
+            wrong++;
+            System.out.println(what + ": answered " + got + ", due is " + want);
+        }
+    }
+
+    static void same(String what, String got, String want) {
+        asked++;
+        if (!got.equals(want)) {
+            wrong++;
+            System.out.println(what + ": answered '" + got + "', due is '" + want + "'");
+        }
+    }
+
+    static void yes(String what, boolean got) { same(what, got ? 1 : 0, 1); }
+
+    static void no(String what, boolean got) { same(what, got ? 1 : 0, 0); }
+
+    static void end() {
+        System.out.println(asked + " answers, " + wrong + " not as due");
+        if (wrong != 0 || asked == 0) {
+            System.exit(1);
+        }
+    }
+
+    static void load(FrameFinder x, byte[] file) {
+        for (int at = 0; at < file.length; at += 8) {
+            int n = Math.min(8, file.length - at);
+            long bytes = 0;
+            for (int i = n - 1; i >= 0; i--) {
+                bytes = bytes << 8 | file[at + i] & 0xFF;
+            }
+            yes("load at " + at, x.load(n, bytes));
+        }
+    }
+
+    static FrameFinder loaded(byte[] file) {
+        FrameFinder x = new FrameFinder();
+        load(x, file);
+        return x;
+    }
+
+    /** What open() answers, -2 when it throws. */
+    static int tryOpen(FrameFinder x) {
+        try {
+            return x.open();
+        } catch (IllegalArgumentException e) {
+            return -2;
+        }
+    }
+
+    /** What find() answers, -2 when it throws. */
+    static int tryFind(FrameFinder x, long address) {
+        try {
+            return x.find(address);
+        } catch (IllegalStateException e) {
+            return -2;
+        }
+    }
+
+    /** An object that has read a well formed file. */
+    static FrameFinder opened(String what, byte[] file) {
+        FrameFinder x = loaded(file);
+        no(what + ": open() throws", tryOpen(x) == -2);
+        same(what + ": fault()", x.fault(), 0);
+        return x;
+    }
+
+    /** The file has a fault (0: none), as a new object says. */
+    static void fault(String what, int want, byte[] file) {
+        FrameFinder x = loaded(file);
+        same(what + ": open() throws", tryOpen(x) == -2 ? 1 : 0, want == 0 ? 0 : 1);
+        same(what + ": fault()", x.fault(), want);
+        same(what + ": count(0) < 0", x.count(0) < 0 ? 1 : 0, want == 0 ? 0 : 1);
+    }
+
+    static String name(FrameFinder x, int i) {
+        StringBuilder text = new StringBuilder();
+        for (int k = 0; k < 3000 && x.name(i, k) != FrameFinder.NONE; k++) {
+            text.append((char) x.name(i, k));
+        }
+        return text.toString();
+    }
+
+    static String file(FrameFinder x, int i) {
+        StringBuilder text = new StringBuilder();
+        for (int k = 0; k < 3000 && x.file(i, k) != FrameFinder.NONE; k++) {
+            text.append((char) x.file(i, k));
+        }
+        return text.toString();
+    }
+
+    /** All frames of an address: name@file:line, the innermost first, with spaces between. */
+    static String frames(FrameFinder x, long address) {
+        int n = tryFind(x, address);
+        StringBuilder text = new StringBuilder();
+        for (int i = 0; i < n; i++) {
+            text.append(i == 0 ? "" : " ").append(name(x, i)).append('@').append(file(x, i)).append(':').append(x.line(i));
+        }
+        return n < 0 ? "throws" : text.toString();
+    }
+}
