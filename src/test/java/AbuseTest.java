@@ -1,0 +1,81 @@
+/** Whatever the bytes are, the calls end and throw nothing but what the document says. */
+public final class AbuseTest {
+    private static long seed = 20261115;
+
+    private static int next(int bound) {
+        seed = seed * 6364136223846793005L + 1442695040888963407L;
+        return (int) ((seed >>> 33) % bound);
+    }
+
+    public static void main(String[] args) {
+        byte[][] files = {Samples.plain().build(), forms(), new Elf().build()};
+        int fine = 0;
+        int[] faults = new int[6];
+        for (int run = 0; run < 20000; run++) {
+            byte[] file = files[next(files.length)].clone();
+            for (int i = next(4); i >= 0; i--) {
+                file[next(file.length)] = (byte) (next(2) == 0 ? next(256) : next(4) == 0 ? 255 : next(4));
+            }
+            FrameFinder x = quietly(file, next(50) == 0 ? next(file.length) : file.length);
+            boolean opens = Check.tryOpen(x) != -2;
+            faults[x.fault()]++;
+            if (opens != (x.fault() == 0) || opens != (x.count(0) > 0)) {
+                Check.yes("open, fault and count agree in run " + run, false);
+            }
+            if (opens) {
+                fine++;
+                ask(x, next(0x5000));
+                ask(x, next(2) - 1);
+            }
+        }
+        for (int fault = 0; fault < 6; fault++) {
+            Check.yes("fault " + fault + " was met", faults[fault] > 0);
+        }
+        Check.yes("some were fine", fine > 100);
+        Check.end();
+    }
+
+    private static FrameFinder quietly(byte[] file, int length) {
+        FrameFinder x = new FrameFinder();
+        for (int i = 0; i < length; i++) {
+            x.load(1, file[i]);
+        }
+        return x;
+    }
+
+    private static void ask(FrameFinder x, long address) {
+        int n = x.find(address);
+        for (int i = -1; i <= n; i++) {
+            boolean there = i >= 0 && i < n;
+            if (!there && (x.name(i, 0) != -1 || x.file(i, 0) != -1 || x.line(i) != -1)) {
+                Check.yes("no frame " + i, false);
+            }
+            for (int k = -1; k < 20; k++) {
+                if (x.name(i, k) < -1 || x.name(i, k) > 255 || x.file(i, k) < -1 || x.file(i, k) > 255) {
+                    Check.yes("characters", false);
+                }
+            }
+        }
+    }
+
+    /** A file with every form and every kind of range. */
+    private static byte[] forms() {
+        Dwarf d = new Dwarf();
+        d.abbrev(1, 0x11, 1, 0x10, 0x17, 0x72, 0x17, 0x73, 0x17, 0x74, 0x17, 0x11, 0x1B, 0x55, 0x23, 0x03, 0x25);
+        d.abbrev(2, 0x2E, 1, 0x03, 0x0E, 0x55, 0x17, 0x31, 0x13, 0x2A, 0x18, 0x2B, 0x06, 0x2C, 0x05);
+        d.abbrev(3, 0x1D, 0, 0x31, 0x13, 0x11, 0x1B, 0x12, 0x0D, 0x58, 0x21, 0, 0x59, 0x0F, 0x2D, 0x07, 0x2E, 0x19);
+        d.endAbbrevs();
+        Bytes e = new Bytes().u1(1).u4(0).u4(4).u4(8).u4(4).uleb(0).uleb(0).u1(0);
+        int function = 12 + e.size();
+        e.u1(2).u4(2).u4(8).u4(function).uleb(2).u2(9).u4(9).u2(9);
+        e.u1(3).u4(function).uleb(0).sleb(64).uleb(99).u8(7).u1(0).u1(0);
+        d.unit(e);
+        d.str.text("x").text("function");
+        d.strOffsets.u4(0).u4(1);
+        d.addr.u8(0).u8(0x1000).u8(0x2000);
+        d.rnglists.u4(0).u4(4).u1(1).uleb(0).u1(4).uleb(0).uleb(9).u1(2).uleb(0).uleb(1).u1(3).uleb(1).uleb(9);
+        d.rnglists.u1(5).u8(0x3000).u1(6).u8(0x3000).u8(0x3009).u1(7).u8(0x4000).uleb(9).u1(0);
+        d.line.all(new LineTable().row(0x1000, 1).row(0x1010, 5).end(0x2000).build());
+        return d.symbol("s", 2, 0, 0x1000).build();
+    }
+}

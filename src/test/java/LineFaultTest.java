@@ -1,0 +1,241 @@
+/** Promises 4 and 5 by FAULT 4, lines. */
+public final class LineFaultTest {
+    public static void main(String[] args) {
+        heads();
+        firsts();
+        names();
+        forms();
+        ends();
+        codes();
+        rows();
+        Check.end();
+    }
+
+    private static byte[] file(Bytes line) {
+        Dwarf d = Samples.single(0x10, 0x17, new Bytes().u4(0));
+        d.line.all(line);
+        d.lineStr.text("ls");
+        return d.build();
+    }
+
+    private static void table(String what, int fault, LineTable table) {
+        Check.fault(what, fault, file(table.build()));
+    }
+
+    private static LineTable bent(int which, int to) {
+        LineTable t = new LineTable();
+        switch (which) {
+            case 0: t.version = to; break;
+            case 1: t.addressSize = to; break;
+            case 2: t.selectorSize = to; break;
+            case 3: t.leastStep = to; break;
+            case 4: t.operations = to; break;
+            case 5: t.lineRange = to; break;
+            default: t.lineBase = to;
+        }
+        return t;
+    }
+
+    private static void heads() {
+        table("plain", 0, new LineTable());
+        int[][] bents = {{0, 4}, {0, 0x105}, {1, 4}, {2, 1}, {3, 0}, {3, 4}, {4, 0}, {4, 2}, {5, 0}};
+        for (int[] b : bents) {
+            table("bent " + b[0] + " to " + b[1], 4, bent(b[0], b[1]));
+        }
+        table("line base -128", 0, bent(6, -128));
+        table("line range 255", 0, bent(5, 255));
+        Check.fault("no section", 4, Samples.single(0x10, 0x17, new Bytes().u4(0)).build());
+        Check.fault("no unit", 0, new Elf().add(".debug_line", new Bytes().u4(99)).build());
+        Dwarf far = Samples.single(0x10, 0x17, new Bytes().u4(0xFFFFFFFFL));
+        far.line.all(new LineTable().build());
+        Check.fault("a table far behind", 4, far.build());
+        byte[] whole = new LineTable().build().array();
+        for (int n = 1; n < whole.length; n++) {
+            Bytes cut = new Bytes().u4(n - 4);
+            for (int i = 4; i < n; i++) {
+                cut.u1(whole[i]);
+            }
+            Check.fault("cut to " + n, 4, file(n < 4 ? new Bytes().raw(new int[n]) : cut));
+        }
+        Check.fault("bytes behind the table", 0, file(new LineTable().build().u4(99)));
+        Dwarf second = Samples.single(0x10, 0x17, new Bytes().u4(5));
+        second.line.u4(0).u1(1).all(new LineTable().build());
+        Check.fault("a table at another place", 0, second.build());
+    }
+
+    private static void firsts() {
+        for (int first : new int[] {0, 1, 9, 10, 13, 200, 201, 255}) {
+            LineTable t = new LineTable();
+            t.first = first;
+            t.operands = new Bytes().raw(new int[Math.max(0, first - 1)]);
+            table("first special code " + first, first >= 10 && first <= 200 ? 0 : 4, t);
+        }
+    }
+
+    private static Bytes names(int forms, int each, long total) {
+        Bytes b = new Bytes().u1(forms);
+        for (int i = 0; i < forms; i++) {
+            b.uleb(i == 0 ? 1 : 2).uleb(i == 0 ? 0x08 : 0x0B);
+        }
+        b.uleb(total);
+        for (int k = 0; k < each; k++) {
+            b.text("n");
+            for (int i = 1; i < forms; i++) {
+                b.u1(7);
+            }
+        }
+        return b;
+    }
+
+    private static void files(String what, int fault, Bytes files) {
+        LineTable t = new LineTable();
+        t.files = files;
+        table("files: " + what, fault, t);
+    }
+
+    private static void folders(String what, int fault, Bytes folders) {
+        LineTable t = new LineTable();
+        t.folders = folders;
+        table("folders: " + what, fault, t);
+    }
+
+    private static void names() {
+        files("six forms", 0, names(6, 2, 2));
+        files("seven forms", 4, names(7, 2, 2));
+        files("30", 0, names(1, 30, 30));
+        files("31", 4, names(1, 31, 31));
+        files("31 without forms", 4, names(0, 0, 31));
+        files("30 without forms", 0, names(0, 0, 30));
+        files("many without sign", 4, names(0, 0, -1));
+        files("one less than said", 4, names(1, 2, 3));
+        folders("six forms", 0, names(6, 2, 2));
+        folders("seven forms", 4, names(7, 2, 2));
+        folders("31", 0, names(1, 31, 31));
+        folders("no forms, however many", 0, names(0, 0, -1));
+        folders("no forms, a million", 0, names(0, 0, 1000000));
+        folders("many without sign", 4, names(1, 1, -1));
+        folders("many beyond an int", 4, names(1, 1, 1L << 32 | 1));
+        // Each unit has 30 files of its own.
+        Dwarf d = new Dwarf().abbrev(1, 0x11, 0, 0x10, 0x17).endAbbrevs();
+        LineTable t = new LineTable();
+        t.files = names(0, 0, 30);
+        d.line.all(t.build());
+        for (int i = 0; i < 4; i++) {
+            d.unit(new Bytes().u1(1).u4(0));
+        }
+        Check.fault("four times 30", 0, d.build());
+    }
+
+    private static Bytes one(Bytes value, int... pairs) {
+        Bytes b = new Bytes().u1(pairs.length / 2);
+        for (int p : pairs) {
+            b.uleb(p);
+        }
+        return b.uleb(1).all(value);
+    }
+
+    private static void both(String what, int fault, Bytes names) {
+        files(what, fault, names);
+        folders(what, fault, names);
+    }
+
+    private static void forms() {
+        both("all forms", 0, one(new Bytes().text("n").u4(99).u1(1).u2(2).uleb(300), 1, 8, 2, 0x1F, 3, 0x0B, 4, 5, 5, 0x0F));
+        both("the name in .debug_line_str", 0, one(new Bytes().u4(1), 1, 0x1F));
+        both("the name at its last byte", 0, one(new Bytes().u4(2), 1, 0x1F));
+        both("the name behind it", 4, one(new Bytes().u4(3), 1, 0x1F));
+        both("a second name behind it", 0, one(new Bytes().text("n").u4(3), 1, 8, 1, 0x1F));
+        both("a name that is a number", 4, one(new Bytes().u1(3), 1, 0x0B));
+        both("a second name that is a number", 0, one(new Bytes().text("n").u1(3), 1, 8, 1, 0x0B));
+        both("no name", 0, one(new Bytes().u1(3), 2, 0x0B));
+        for (int form : new int[] {0, 0x01, 0x06, 0x07, 0x0D, 0x0E, 0x13, 0x17, 0x18, 0x19, 0x1B, 0x1E, 0x21, 0x23, 0x25}) {
+            both("form " + form, 4, one(new Bytes().raw(new int[16]), 2, form));
+            both("form " + form + " of nothing", 4, new Bytes().u1(1).uleb(2).uleb(form).uleb(0));
+        }
+        both("a form beyond an int", 4, new Bytes().u1(1).uleb(2).uleb(1L << 32 | 0x0B).uleb(0));
+        both("what beyond an int is no name", 0, new Bytes().u1(1).uleb(1L << 32 | 1).uleb(0x0B).uleb(1).u1(0));
+    }
+
+    private static LineTable lengths(int gap, int moreHead, int moreLength) {
+        LineTable t = new LineTable();
+        t.gap.raw(new int[gap]);
+        t.moreHead = moreHead;
+        t.moreLength = moreLength;
+        t.program.u1(1);
+        return t;
+    }
+
+    private static void ends() {
+        table("a gap", 0, lengths(5, 0, 0));
+        table("a head that ends before what was read", 4, lengths(0, -1, 0));
+        table("a head that ends with the table", 0, lengths(0, 1, 0));
+        table("a head that ends behind the table", 4, lengths(0, 2, 0));
+        table("a head of a size without sign", 4, lengths(0, -1000, 0));
+        table("a table that ends behind the section", 4, lengths(0, 0, 1));
+        table("a table that ends before the code", 0, lengths(0, 0, -1));
+        table("a table of a size without sign", 4, lengths(0, 0, -1000));
+    }
+
+    private static void program(String what, int fault, int... codes) {
+        LineTable t = new LineTable();
+        t.program.raw(codes);
+        table("program: " + what, fault, t);
+    }
+
+    private static void codes() {
+        program("extended without length", 4, 0);
+        program("extended of length 0", 4, 0, 0);
+        program("extended of length 0, more behind", 4, 0, 0, 1);
+        program("extended without what", 4, 0, 1);
+        program("an end", 0, 0, 1, 1);
+        program("an end with more", 0, 0, 3, 1, 9, 9);
+        program("an end with more than there is", 4, 0, 3, 1, 9);
+        program("another", 0, 0, 4, 0x80, 1, 2, 3);
+        program("another that does not fit", 4, 0, 4, 0x80, 1, 2);
+        program("a length without sign", 4, 0, 0xFF, 0xFF, 0xFF, 0xFF, 0xFF, 0xFF, 0xFF, 0xFF, 0xFF, 1, 0x80, 1);
+        program("an address", 0, 0, 9, 2, 1, 2, 3, 4, 5, 6, 7, 8);
+        program("an address with more", 0, 0, 10, 2, 1, 2, 3, 4, 5, 6, 7, 8, 9);
+        program("an address too short", 4, 0, 8, 2, 1, 2, 3, 4, 5, 6, 7, 8);
+        program("an address cut off", 4, 0, 9, 2, 1, 2, 3, 4, 5, 6, 7);
+        program("no operands", 0, 1, 6, 7, 8, 10, 11, 13, 255);
+        for (int code : new int[] {2, 3, 4, 5, 12}) {
+            program("one number behind " + code, 0, code, 0xFF, 1);
+            program("none behind " + code, 4, code);
+            program("one cut off behind " + code, 4, code, 0x80);
+        }
+        program("u2", 0, 9, 1, 2);
+        program("u2 cut off", 4, 9, 1);
+        LineTable t = new LineTable();
+        t.first = 15;
+        t.operands = new Bytes().raw(9, 9, 9, 9, 9, 9, 9, 9, 9, 9, 9, 9, 3, 0);
+        t.program.raw(13, 0x81, 0, 2, 3, 14, 1, 6);
+        table("operands that the head tells", 0, t);
+        t.program.raw(13, 1, 2);
+        table("one operand less", 4, t);
+        LineTable low = new LineTable();
+        low.first = 10;
+        low.operands = new Bytes().raw(new int[9]);
+        low.program.raw(12, 10, 11);
+        table("12 is special when the first is 10", 0, low);
+        Check.same("rows", Check.opened("special", file(low.build())).count(4), 3);
+    }
+
+    /** At most 400 in all, ends and what is behind the last one counted. */
+    private static void rows() {
+        for (int n = 198; n <= 199; n++) {
+            Dwarf d = new Dwarf().abbrev(1, 0x11, 0, 0x10, 0x17).endAbbrevs();
+            d.unit(new Bytes().u1(1).u4(0)).unit(new Bytes().u1(1).u4(0));
+            LineTable t = new LineTable();
+            for (int i = 0; i < n; i++) {
+                t.program.u1(i % 2 == 0 ? 1 : 20);
+            }
+            t.program.raw(0, 1, 1).u1(1);
+            d.line.all(t.build());
+            int all = 2 * (n + 2);
+            Check.fault(all + " rows", all <= 400 ? 0 : 4, d.build());
+            if (all <= 400) {
+                Check.same(all + " rows", Check.opened("rows", d.build()).count(4), all);
+            }
+        }
+    }
+}

@@ -1,0 +1,179 @@
+/** Promises 4 and 5 by FAULT 2, units, abbreviations and entries. */
+public final class UnitFaultTest {
+    public static void main(String[] args) {
+        heads();
+        abbreviations();
+        attributes();
+        forms();
+        numbers();
+        nesting();
+        limits();
+        Check.end();
+    }
+
+    private static Dwarf bare() {
+        return new Dwarf().abbrev(1, 0x11, 0).abbrev(2, 0x11, 1).abbrev(3, 0x34, 0).abbrev(4, 0x39, 1).endAbbrevs();
+    }
+
+    /** A unit of these entries in the bare abbreviations: the fault is due. */
+    private static void entries(String what, int fault, int... entries) {
+        Check.fault(what, fault, bare().unit(new Bytes().raw(entries)).build());
+    }
+
+    private static void info(String what, int fault, Bytes info) {
+        Dwarf d = bare();
+        d.info.all(info);
+        Check.fault(what, fault, d.build());
+    }
+
+    private static void heads() {
+        info("a unit", 0, new Bytes().u4(9).u2(5).u1(1).u1(8).u4(0).u1(1));
+        info("no unit", 0, new Bytes());
+        info("version 4", 2, new Bytes().u4(9).u2(4).u1(1).u1(8).u4(0).u1(1));
+        info("version beyond a byte", 2, new Bytes().u4(9).u2(0x105).u1(1).u1(8).u4(0).u1(1));
+        info("kind 2", 2, new Bytes().u4(9).u2(5).u1(2).u1(8).u4(0).u1(1));
+        info("addresses of 4", 2, new Bytes().u4(9).u2(5).u1(1).u1(4).u4(0).u1(1));
+        info("a byte behind the unit", 2, new Bytes().u4(9).u2(5).u1(1).u1(8).u4(0).u1(1).u1(0));
+        info("a byte behind the entry", 2, new Bytes().u4(10).u2(5).u1(1).u1(8).u4(0).u1(1).u1(0));
+        info("longer than the section", 2, new Bytes().u4(10).u2(5).u1(1).u1(8).u4(0).u1(1));
+        info("length with its highest bit", 2, new Bytes().u4(0xFFFFFFF0L).u2(5).u1(1).u1(8).u4(0).u1(1));
+        info("length that cuts the head", 2, new Bytes().u4(7).u2(5).u1(1).u1(8).u4(0).u1(1));
+        info("length of no entries", 2, new Bytes().u4(8).u2(5).u1(1).u1(8).u4(0));
+        info("three bytes", 2, new Bytes().raw(9, 0, 0));
+        info("abbreviations beyond", 2, new Bytes().u4(9).u2(5).u1(1).u1(8).u4(100).u1(1));
+        info("abbreviations far beyond", 2, new Bytes().u4(9).u2(5).u1(1).u1(8).u4(0xFFFFFFFFL).u1(1));
+        Dwarf second = bare();
+        int place = second.abbrev.size();
+        second.abbrev(1, 0x11, 0, 0x03, 0x08).endAbbrevs();
+        second.unit(0, new Bytes().u1(1)).unit(place, new Bytes().u1(1).text("x"));
+        Check.same("each unit has its own", Check.opened("own", second.build()).count(1), 2);
+    }
+
+    private static void table(String what, int fault, Bytes abbrev) {
+        Dwarf d = new Dwarf();
+        d.abbrev.all(abbrev);
+        Check.fault(what, fault, d.unit(new Bytes().u1(1)).build());
+    }
+
+    private static void abbreviations() {
+        table("one", 0, new Bytes().raw(1, 0x11, 0, 0, 0, 0));
+        table("more behind their end", 0, new Bytes().raw(1, 0x11, 0, 0, 0, 0, 7, 7, 7));
+        table("without their end", 2, new Bytes().raw(1, 0x11, 0, 0, 0));
+        table("cut off", 2, new Bytes().raw(1, 0x11, 0, 0));
+        table("children 2", 2, new Bytes().raw(1, 0x11, 2, 0, 0, 0));
+        table("children 2 where not used", 2, new Bytes().raw(1, 0x11, 0, 0, 0, 2, 0x34, 2, 0, 0, 0));
+        table("a number twice", 2, new Bytes().raw(1, 0x11, 0, 0, 0, 1, 0x34, 0, 0, 0, 0));
+        table("a number twice, written longer", 2, new Bytes().raw(1, 0x11, 0, 0, 0, 0x81, 0, 0x34, 0, 0, 0, 0));
+        table("none", 2, new Bytes().raw(0));
+        table("another number", 2, new Bytes().raw(2, 0x11, 0, 0, 0, 0));
+        table("a long end", 0, new Bytes().raw(1, 0x11, 0, 0, 0, 0x80, 0));
+        table("a long tag", 0, new Bytes().raw(1, 0x91, 0x80, 0, 0, 0, 0, 0));
+        table("a tag that only ends so", 2, new Bytes().raw(1, 0x91, 0x80, 0x80, 0x80, 0x80, 1, 0, 0, 0, 0));
+    }
+
+    private static void attributes() {
+        table("attribute without form", 2, new Bytes().raw(1, 0x11, 0, 5, 0, 0, 0, 0));
+        table("attribute 0 with a form", 0, new Bytes().raw(1, 0x11, 0, 0, 0x19, 0, 0, 0));
+        table("implicit without value", 2, new Bytes().raw(1, 0x11, 0, 5, 0x21));
+        table("implicit with a value", 0, new Bytes().raw(1, 0x11, 0, 5, 0x21, 0xFF, 0x7F, 0, 0, 0));
+        for (int n = 12; n <= 13; n++) {
+            Bytes abbrev = new Bytes().raw(1, 0x11, 0);
+            for (int i = 0; i < n; i++) {
+                abbrev.raw(5, 0x19);
+            }
+            table(n + " attributes", n == 12 ? 0 : 2, abbrev.raw(0, 0, 0));
+        }
+        for (int n = 40; n <= 41; n++) {
+            Bytes abbrev = new Bytes();
+            for (int i = 1; i <= n; i++) {
+                abbrev.uleb(i).raw(0x11, 0, 0, 0);
+            }
+            table(n + " abbreviations", n == 40 ? 0 : 2, abbrev.u1(0));
+        }
+    }
+
+    /** Each form takes just its bytes; one less, or one more, is a fault. */
+    private static void forms() {
+        int[][] forms = {
+            {0x01, 8}, {0x0B, 1}, {0x05, 2}, {0x06, 4}, {0x07, 8}, {0x0E, 4}, {0x1F, 4}, {0x25, 1}, {0x13, 4}, {0x17, 4},
+            {0x19, 0}, {0x0D, 1}, {0x0F, 1}, {0x1B, 1}, {0x23, 1}, {0x08, 1}, {0x18, 1}};
+        for (int[] f : forms) {
+            for (int n = Math.max(0, f[1] - 1); n <= f[1] + 1; n++) {
+                Bytes value = new Bytes().raw(new int[n]);
+                Check.fault("form " + f[0] + " of " + n, n == f[1] ? 0 : 2, Samples.single(0x7F, f[0], value).build());
+            }
+        }
+        Check.fault("bytes", 0, Samples.single(0x7F, 0x18, new Bytes().raw(3, 1, 2, 3)).build());
+        Check.fault("bytes cut off", 2, Samples.single(0x7F, 0x18, new Bytes().raw(3, 1, 2)).build());
+        Check.fault("bytes without end", 2, Samples.single(0x7F, 0x18, new Bytes().uleb(-1)).build());
+        Check.fault("a text", 0, Samples.single(0x7F, 0x08, new Bytes().text("abc")).build());
+        Check.fault("a text without end", 2, Samples.single(0x7F, 0x08, new Bytes().raw(65, 66)).build());
+        String known = " 1 11 5 6 7 13 15 33 25 8 14 31 37 19 23 27 35 24 ";
+        for (int form = 1; form < 0x30; form++) {
+            if (known.indexOf(" " + form + " ") < 0) {
+                Check.fault("form " + form, 2, Samples.single(0x7F, form, new Bytes()).build());
+                table("unused form " + form, 2, new Bytes().raw(1, 0x11, 0, 0, 0, 2, 0x34, 0, 5, form, 0, 0, 0));
+            }
+        }
+        table("form 0x10B", 2, new Bytes().raw(1, 0x11, 0, 0, 0, 2, 0x34, 0, 5).uleb(0x10B).raw(0, 0, 0));
+        table("form beyond an int", 2, new Bytes().raw(1, 0x11, 0, 0, 0, 2, 0x34, 0, 5).uleb(1L << 32 | 0x0B).raw(0, 0, 0));
+    }
+
+    private static void numbers() {
+        Bytes ten = new Bytes().raw(0x80, 0x80, 0x80, 0x80, 0x80, 0x80, 0x80, 0x80, 0x80, 0);
+        Bytes eleven = new Bytes().raw(0x80, 0x80, 0x80, 0x80, 0x80, 0x80, 0x80, 0x80, 0x80, 0x80, 0);
+        for (int form : new int[] {0x0D, 0x0F, 0x1B, 0x23, 0x18}) {
+            Check.fault("ten bytes of " + form, 0, Samples.single(0x7F, form, ten).build());
+            Check.fault("eleven bytes of " + form, 2, Samples.single(0x7F, form, eleven).build());
+        }
+        // What is beyond 64 bits is lost, so this is the abbreviation 1.
+        entries("a number with lost bits", 0, 0x81, 0x80, 0x80, 0x80, 0x80, 0x80, 0x80, 0x80, 0x80, 0x7E);
+        entries("a number with bit 63", 2, 0x81, 0x80, 0x80, 0x80, 0x80, 0x80, 0x80, 0x80, 0x80, 0x01);
+    }
+
+    private static void nesting() {
+        entries("alone", 0, 1);
+        entries("children", 0, 2, 3, 3, 0);
+        entries("children in children", 0, 2, 4, 3, 0, 4, 0, 0);
+        entries("not ended", 2, 2, 3);
+        entries("not ended inside", 2, 2, 4, 3, 0);
+        entries("ended twice", 2, 2, 3, 0, 0);
+        entries("an end where nothing is open", 2, 1, 0);
+        entries("an end at first", 2, 0, 1);
+        entries("no abbreviation", 2, 2, 9, 0);
+        entries("the first is no unit", 2, 3);
+        entries("the first is no unit but has one", 2, 4, 1, 0);
+        entries("a unit in a unit", 2, 2, 1, 0);
+        entries("two behind each other", 2, 1, 3);
+        entries("two units behind each other", 2, 1, 1);
+        entries("one behind the children", 2, 2, 0, 3);
+        entries("a long end", 0, 2, 3, 0x80, 0);
+    }
+
+    private static void limits() {
+        for (int n = 16; n <= 17; n++) {
+            Bytes e = new Bytes().u1(2);
+            for (int i = 1; i < n; i++) {
+                e.u1(4);
+            }
+            e.u1(3);
+            for (int i = 0; i < n; i++) {
+                e.u1(0);
+            }
+            Check.fault(n + " open", n == 16 ? 0 : 2, bare().unit(e).build());
+        }
+        for (int n = 199; n <= 200; n++) {
+            Dwarf d = bare().unit(new Bytes().u1(1));
+            Bytes e = new Bytes().u1(2);
+            for (int i = 1; i < n; i++) {
+                e.u1(3);
+            }
+            Check.fault(n + 1 + " entries of two units", n == 199 ? 0 : 2, d.unit(e.u1(0)).build());
+        }
+        Dwarf d = bare();
+        for (int n = 1; n <= 5; n++) {
+            d.unit(new Bytes().u1(1));
+            Check.fault(n + " units", n <= 4 ? 0 : 2, d.build());
+        }
+    }
+}
