@@ -1,5 +1,6 @@
 /** Whatever the bytes are, the calls end and throw nothing but what the document says. */
 public final class AbuseTest {
+    // A used object has more calls behind it than are promised; it must not fail all the same.
     private static long seed = 20261115;
 
     private static int next(int bound) {
@@ -8,15 +9,18 @@ public final class AbuseTest {
     }
 
     public static void main(String[] args) {
-        byte[][] files = {Samples.plain().build(), forms(), new Elf().build()};
+        byte[][] files = {Samples.plain().build(), forms(), new Elf().build(), bare()};
         int fine = 0;
         int[] faults = new int[6];
+        FrameFinder used = new FrameFinder();
         for (int run = 0; run < 20000; run++) {
             byte[] file = files[next(files.length)].clone();
             for (int i = next(4); i >= 0; i--) {
                 file[next(file.length)] = (byte) (next(2) == 0 ? next(256) : next(4) == 0 ? 255 : next(4));
             }
-            FrameFinder x = quietly(file, next(50) == 0 ? next(file.length) : file.length);
+            int length = next(50) == 0 ? next(file.length) : file.length;
+            FrameFinder x = new FrameFinder();
+            load(x, file, length);
             boolean opens = Check.tryOpen(x) != -2;
             faults[x.fault()]++;
             if (opens != (x.fault() == 0) || opens != (x.count(0) > 0)) {
@@ -27,6 +31,13 @@ public final class AbuseTest {
                 ask(x, next(0x5000));
                 ask(x, next(2) - 1);
             }
+            used.clear();
+            load(used, file, length);
+            Check.tryOpen(used);
+            if (!all(used).equals(all(x))) {
+                Check.yes("a used object answers as a new one in run " + run, false);
+            }
+            used = x;
         }
         for (int fault = 0; fault < 6; fault++) {
             Check.yes("fault " + fault + " was met", faults[fault] > 0);
@@ -35,12 +46,21 @@ public final class AbuseTest {
         Check.end();
     }
 
-    private static FrameFinder quietly(byte[] file, int length) {
-        FrameFinder x = new FrameFinder();
+    private static void load(FrameFinder x, byte[] file, int length) {
         for (int i = 0; i < length; i++) {
             x.load(1, file[i]);
         }
-        return x;
+    }
+
+    private static String all(FrameFinder x) {
+        StringBuilder text = new StringBuilder().append(x.fault());
+        for (int what = 0; what < 6; what++) {
+            text.append(' ').append(x.count(what));
+        }
+        for (long address : new long[] {0, 5, 0x100, 0x1000, 0x1025, 0x1090, 0x2000, 0x3005, 0x4000, -1}) {
+            text.append(", ").append(Check.frames(x, address));
+        }
+        return text.toString();
     }
 
     private static void ask(FrameFinder x, long address) {
@@ -56,6 +76,15 @@ public final class AbuseTest {
                 }
             }
         }
+    }
+
+    /** Two units whose entries have hardly an attribute: what was kept before must not show. */
+    private static byte[] bare() {
+        Dwarf d = new Dwarf().abbrev(1, 0x11, 1, 0x11, 0x1B).abbrev(2, 0x2E, 0, 0x11, 0x01, 0x12, 0x05).endAbbrevs();
+        d.unit(new Bytes().u1(1).uleb(1).u1(2).u8(0).u2(0x5000).u1(0));
+        d.unit(new Bytes().u1(1).uleb(0).u1(2).u8(0).u2(0x6000).u1(0));
+        d.addr.u8(0).u8(1);
+        return d.build();
     }
 
     /** A file with every form and every kind of range. */

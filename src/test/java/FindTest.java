@@ -41,6 +41,7 @@ public final class FindTest {
         Dwarf d = Samples.plain().symbol("again", 2, 0x3008, 0x10).symbol("main2", 2, 0x1000, 0x1000);
         d.symbol("wrapped", 2, -0x10, 0x10).symbol("wraps", 2, -0x20, 0x30).symbol("high", 2, -0x40, 0x10);
         d.symbol("bits", 0xF2, 0x5000, 1).symbol("no", 0x21, 0x5000, 5).symbol("none", 0x2A, 0x5000, 5);
+        d.symbol("odd", 3, 0x5000, 5).symbol("even", 6, 0x5000, 5);
         FrameFinder x = Check.opened("symbols", d.build());
         due("before", x, 0x2FFF, "");
         due("first", x, 0x3000, "sym@:0");

@@ -141,6 +141,8 @@ public final class LineFaultTest {
 
     private static void forms() {
         both("all forms", 0, one(new Bytes().text("n").u4(99).u1(1).u2(2).uleb(300), 1, 8, 2, 0x1F, 3, 0x0B, 4, 5, 5, 0x0F));
+        both("u2 at the end", 0, one(new Bytes().text("n").u2(0xFFFF), 1, 8, 2, 5));
+        both("u2 cut off", 4, one(new Bytes().u1(0x01), 2, 5, 3, 0x0F));
         both("the name in .debug_line_str", 0, one(new Bytes().u4(1), 1, 0x1F));
         both("the name at its last byte", 0, one(new Bytes().u4(2), 1, 0x1F));
         both("the name behind it", 4, one(new Bytes().u4(3), 1, 0x1F));
@@ -174,6 +176,12 @@ public final class LineFaultTest {
         table("a table that ends behind the section", 4, lengths(0, 0, 1));
         table("a table that ends before the code", 0, lengths(0, 0, -1));
         table("a table of a size without sign", 4, lengths(0, 0, -1000));
+        // The first byte of the next section would be a code that fits.
+        Dwarf next = Samples.single(0x10, 0x17, new Bytes().u4(0));
+        next.line.all(lengths(0, 0, 1).build());
+        next.symtab.u4(1).u1(2).u1(0).u2(0).u8(0).u8(0);
+        next.strtab.text("ab");
+        Check.fault("a table that ends in the next section", 4, next.build());
     }
 
     private static void program(String what, int fault, int... codes) {
@@ -231,7 +239,11 @@ public final class LineFaultTest {
             }
             t.program.raw(0, 1, 1).u1(1);
             d.line.all(t.build());
+            Dwarf odd = new Dwarf().abbrev(1, 0x11, 0, 0x10, 0x17).endAbbrevs();
+            odd.unit(new Bytes().u1(1).u4(0)).unit(new Bytes().u1(1).u4(0)).unit(new Bytes().u1(1).u4(d.line.size()));
+            odd.line.all(t.build()).all(new LineTable().row(1, 1).build());
             int all = 2 * (n + 2);
+            Check.fault(all + 1 + " rows", all + 1 <= 400 ? 0 : 4, odd.build());
             Check.fault(all + " rows", all <= 400 ? 0 : 4, d.build());
             if (all <= 400) {
                 Check.same(all + " rows", Check.opened("rows", d.build()).count(4), all);

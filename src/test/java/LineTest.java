@@ -6,6 +6,7 @@ public final class LineTest {
         codes();
         sequences();
         withoutSign();
+        twoUnits();
         Check.end();
     }
 
@@ -88,6 +89,14 @@ public final class LineTest {
         due("before 9", before, 0x1233, 0);
         due("unknown", program("unknown", 0, 3, 0x80, 1, 1, 1), 0, 1);
         due("an address and what is left", program("left", 0, 11, 2, 5, 0, 0, 0, 0, 0, 0, 0, 1, 1, 1), 5, 1);
+        due("8 behind 2", program("8", 2, 10, 8, 1), 34, 1);
+        due("before that", program("8", 2, 10, 8, 1), 33, 0);
+        due("9 behind 2", program("9", 2, 10, 9, 10, 0, 1), 20, 1);
+        due("before that", program("9", 2, 10, 9, 10, 0, 1), 19, 0);
+        due("2 behind 2", program("2", 2, 10, 2, 10, 1), 20, 1);
+        FrameFinder again = program("again", 3, 8, 2, 10, 1, 2, 5, 0, 1, 1, 3, 1, 1);
+        due("all begins anew behind an end", again, 4, 2);
+        due("though the first was elsewhere", again, 10, 9);
         wrap();
         otherHead();
         gap();
@@ -102,6 +111,12 @@ public final class LineTest {
         due("a line beyond an int", opened("far", far), 0, 7);
         LineTable minus = new LineTable();
         minus.program.u1(3).sleb(-2).u1(1).raw(END);
+        LineTable two = new LineTable();
+        two.program.u1(3).sleb(-8192).u1(1).raw(END);
+        due("a line by two bytes with sign", opened("two", two), 0, -8191);
+        LineTable nine = new LineTable();
+        nine.program.u1(3).raw(0xFC, 0xFF, 0xFF, 0xFF, 0xFF, 0xFF, 0xFF, 0xFF, 0x7F).u1(1).raw(END);
+        due("a line by nine bytes with sign", opened("nine", nine), 0, -3);
         due("a line that is NONE's number", opened("minus", minus), 0, -1);
         LineTable address = new LineTable();
         address.program.u1(2).uleb(-5).u1(2).uleb(10).u1(1).raw(END);
@@ -122,6 +137,11 @@ public final class LineTest {
         due("before 8", x, 80, 8);
         due("behind 8", x, 81, 8);
         due("its end", x, 82, 0);
+        LineTable eleven = new LineTable();
+        eleven.lineRange = 11;
+        eleven.program.raw(8, 1).raw(END);
+        due("8 as with 255", opened("eleven", eleven), 22, 1);
+        due("before it", opened("eleven", eleven), 21, 0);
         LineTable more = new LineTable();
         more.first = 14;
         more.operands = new Bytes().raw(0, 0, 0, 0, 0, 0, 0, 0, 0, 0, 0, 0, 2);
@@ -165,6 +185,28 @@ public final class LineTest {
         LineTable low = new LineTable().row(0x200, 1).end(0x100);
         due("an end before its first row", opened("low", low), 0x180, 0);
         due("an end before its first row, behind", opened("low", low), 0x200, 0);
+    }
+
+    /** What the first unit leaves open is not ended by the second one's rows. */
+    private static void twoUnits() {
+        Dwarf d = Samples.tables();
+        d.line.all(new LineTable().row(0x10, 5).build());
+        int second = d.line.size();
+        d.line.all(new LineTable().end(0x20).build());
+        Bytes e = new Bytes().u1(Samples.UNIT).u4(0);
+        d.unit(Samples.function(e, "f", 0, -1).u1(0).u1(0));
+        d.unit(new Bytes().u1(Samples.UNIT).u4(second).u1(0));
+        due("no sequence", Check.opened("two units", d.build()), 0x18, 0);
+        // The program of the second unit begins at address 0 too.
+        Dwarf late = Samples.tables();
+        late.line.all(new LineTable().row(0x10, 5).build());
+        int place = late.line.size();
+        late.line.all(table(3, 6, 1, 2, 9, 0, 1, 1).build());
+        Bytes o = new Bytes().u1(Samples.UNIT).u4(0);
+        late.unit(o.u1(0));
+        Bytes g = new Bytes().u1(Samples.UNIT).u4(place);
+        late.unit(Samples.function(g, "g", 0, -1).u1(0).u1(0));
+        due("its own registers", Check.opened("late", late.build()), 3, 7);
     }
 
     private static void withoutSign() {

@@ -40,7 +40,9 @@ public final class SectionFaultTest {
         Check.fault("no sections", 1, put(file, 0x3C, 2, 0));
         Check.fault("which has the names", 1, put(file, 0x3E, 2, 7));
         Check.fault("which has the names, high", 1, put(file, 0x3E, 2, 256));
+        Check.fault("which has the names, high byte", 1, put(file, 0x3E, 2, 0x106));
         Check.fault("a section that has no names", 1, put(file, 0x3E, 2, 0));
+        Check.same("one section", Check.opened("one", one()).count(0), 1);
         Elf most = new Elf();
         for (int i = 0; i < 22; i++) {
             most.add("s", new Bytes());
@@ -48,6 +50,13 @@ public final class SectionFaultTest {
         Check.fault("24 sections", 0, most.build());
         Check.same("count(0)", Check.opened("24", most.build()).count(0), 24);
         Check.fault("25 sections", 1, most.add("s", new Bytes()).build());
+    }
+
+    /** The section of names alone. */
+    private static byte[] one() {
+        byte[] two = new Elf().build();
+        int second = get(two, HEADERS_AT) + 64;
+        return put(put(put(two, HEADERS_AT, 8, second), 0x3C, 2, 1), 0x3E, 2, 0);
     }
 
     private static void headers() {
@@ -58,6 +67,7 @@ public final class SectionFaultTest {
         Check.fault("headers that wrap", 1, put(file, HEADERS_AT, 8, -64));
         Check.fault("headers that wrap to fit", 1, put(file, HEADERS_AT, 8, -1));
         Check.fault("headers far behind", 1, put(file, HEADERS_AT, 8, 1L << 32 | at));
+        Check.fault("headers farther behind", 1, put(file, HEADERS_AT, 8, 1L << 56 | at));
         byte[] less = new byte[file.length - 1];
         System.arraycopy(file, 0, less, 0, less.length);
         Check.fault("a byte less", 1, less);
@@ -73,6 +83,14 @@ public final class SectionFaultTest {
         Check.fault("ends behind the file", 1, put(file, first + 32, 8, file.length));
         Check.fault("begins at a wrapped place", 1, put(file, first + 24, 8, -8));
         Check.fault("has a wrapped size", 1, put(file, first + 32, 8, -8));
+        Check.fault("begins at -1", 1, put(put(file, first + 24, 8, -1), first + 32, 8, 1));
+        Check.fault("begins at -1, of no bytes", 1, put(put(file, first + 24, 8, -1), first + 32, 8, 0));
+        Check.fault("has the size -1", 1, put(file, first + 32, 8, -1));
+        Check.fault("has a size of the highest byte", 1, put(file, first + 32, 8, 1L << 56 | get(file, first + 32)));
+        Check.fault("begins at a place of the highest byte", 1, put(file, first + 24, 8, 1L << 56 | get(file, first + 24)));
+        Check.fault("the first begins at 0", 0, put(file, first - 64 + 24, 8, 0));
+        Check.fault("the first lies beyond", 1, put(file, first - 64 + 24, 8, file.length + 1));
+        Check.fault("the first has no name", 1, put(file, first - 64, 4, 0xFFFF));
         byte[] behind = put(put(file, first + 24, 8, file.length), first + 32, 8, 0);
         Check.fault("of no bytes at the end of the file: no abbreviations", 2, behind);
         byte[] beyond = put(put(file, first + 24, 8, file.length + 1), first + 32, 8, 0);
@@ -107,6 +125,7 @@ public final class SectionFaultTest {
         Elf empty = new Elf().add(".symtab", 8, one).add(".symtab", two).add(".strtab", new Bytes().u1(0));
         Check.same("kind 8", Check.opened("kind 8", empty.build()).count(5), 0);
         Elf other = new Elf().add(".symta", one).add(".symtab2", one).add("symtab", one).add(".Symtab", one);
+        other.add("xsymtab", one).add(".symtax", one);
         Check.same("other names", Check.opened("others", other.build()).count(5), 0);
         Elf absent = new Elf().add(".symtab", one);
         Check.fault("no .strtab", 5, absent.build());

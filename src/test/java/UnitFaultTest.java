@@ -42,6 +42,11 @@ public final class UnitFaultTest {
         info("three bytes", 2, new Bytes().raw(9, 0, 0));
         info("abbreviations beyond", 2, new Bytes().u4(9).u2(5).u1(1).u1(8).u4(100).u1(1));
         info("abbreviations far beyond", 2, new Bytes().u4(9).u2(5).u1(1).u1(8).u4(0xFFFFFFFFL).u1(1));
+        // The first byte of the next section would end the children.
+        Dwarf next = bare();
+        next.info.u4(11).u2(5).u1(1).u1(8).u4(0).u1(2).u1(3);
+        next.str.u1(0);
+        Check.fault("a unit that ends in the next section", 2, next.build());
         Dwarf second = bare();
         int place = second.abbrev.size();
         second.abbrev(1, 0x11, 0, 0x03, 0x08).endAbbrevs();

@@ -33,11 +33,23 @@ public final class ValueFaultTest {
         forms(0x72, " 23 ", true);
         forms(0x73, " 23 ", true);
         forms(0x74, " 23 ", true);
+        linesOfAnotherForm();
         StringBuilder all = new StringBuilder(" ");
         for (int form : FORMS) {
             all.append(form).append(' ');
         }
         forms(0x25, all.toString(), false);
+    }
+
+    private static void linesOfAnotherForm() {
+        Check.fault("lines of form 0x0B", 3, Samples.single(0x10, 0x0B, new Bytes().u1(0)).build());
+        Check.fault("lines of form 0x06", 3, Samples.single(0x10, 0x06, new Bytes().u4(0)).build());
+        Dwarf d = new Dwarf().abbrev(1, 0x11, 0, 0x74, 0x17).abbrev(2, 0x11, 0, 0x74, 0x06).endAbbrevs();
+        for (int i = 0; i < 3; i++) {
+            d.unit(new Bytes().u1(1).u4(0));
+        }
+        Check.fault("bases of three units", 0, d.build());
+        Check.fault("a base of the fourth", 3, d.unit(new Bytes().u1(2).u4(0)).build());
     }
 
     /** Every form of an attribute in an entry of every tag, all that it may lead to being there. */
@@ -234,16 +246,16 @@ public final class ValueFaultTest {
     }
 
     private static void rangeLimit() {
-        for (int n = 149; n <= 150; n++) {
+        for (int n = 297; n <= 298; n++) {
             Dwarf d = new Dwarf().abbrev(1, 0x11, 1, 0x11, 0x01, 0x12, 0x0B, 0x55, 0x17).abbrev(2, 0x2E, 0, 0x55, 0x17);
             d.abbrev(3, 0x0B, 0, 0x11, 0x01, 0x12, 0x0B).endAbbrevs();
-            Bytes e = new Bytes().u1(1).u8(0).u1(0).u4(0).u1(2).u4(0);
+            Bytes e = new Bytes().u1(1).u8(0).u1(0).u4(3 * (n - 1)).u1(2).u4(0);
             d.unit(e.u1(3).u8(0).u1(0).u1(3).u8(0).u1(0).u1(0));
             for (int i = 0; i < n; i++) {
                 d.rnglists.u1(4).uleb(1).uleb(1);
             }
             d.rnglists.u1(0);
-            int all = 2 * n + 2;
+            int all = 1 + n + 2;
             Check.fault(all + " ranges", all <= 300 ? 0 : 3, d.build());
             if (all <= 300) {
                 Check.same(all + " ranges", Check.opened("ranges", d.build()).count(3), all);
