@@ -764,10 +764,9 @@ public final class FrameFinder {
         private final int[] behindOf = new int[MAX_ENTRIES];
         private int total;
 
-        /** The entry has those from now on until it is ended. */
+        /** The entry has the ranges that are added from here on to its end(). */
         void begin(int e) {
             firstOf[e] = total;
-            behindOf[e] = total;
         }
 
         void end(int e) {
@@ -1007,7 +1006,6 @@ public final class FrameFinder {
 
         void begin(int unit) {
             firstOf[unit] = total;
-            behindOf[unit] = total;
             files[unit] = 0;
         }
 

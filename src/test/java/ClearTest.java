@@ -30,6 +30,14 @@ public final class ClearTest {
         Check.same("its rows", x.count(4), 0);
         Check.same("its symbols", x.count(5), 0);
         Check.same("its frames", Check.frames(x, 0x1000), "");
+        Bytes symbol = new Bytes().u4(0).u1(2).u1(0).u2(0).u8(1).u8(9);
+        x = Check.opened("a symbol", new Elf().add(".symtab", symbol).add(".strtab", new Bytes().u1(0)).build());
+        Check.same("it is there", x.find(5), 1);
+        x.clear();
+        Check.load(x, new Elf().add(".symtab", 8, symbol).add(".strtab", new Bytes().u1(0)).build());
+        Check.same("the same of kind 8", Check.tryOpen(x), 0);
+        Check.same("has no symbols", x.count(5), 0);
+        Check.same("and none is found", x.find(5), 0);
         Check.end();
     }
 

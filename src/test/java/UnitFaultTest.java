@@ -111,6 +111,8 @@ public final class UnitFaultTest {
         Check.fault("bytes", 0, Samples.single(0x7F, 0x18, new Bytes().raw(3, 1, 2, 3)).build());
         Check.fault("bytes cut off", 2, Samples.single(0x7F, 0x18, new Bytes().raw(3, 1, 2)).build());
         Check.fault("bytes without end", 2, Samples.single(0x7F, 0x18, new Bytes().uleb(-1)).build());
+        Check.fault("bytes without sign", 2, Samples.single(0x7F, 0x18, new Bytes().uleb(1L << 63)).build());
+        Check.fault("bytes beyond an int", 2, Samples.single(0x7F, 0x18, new Bytes().uleb(1L << 32)).build());
         Check.fault("a text", 0, Samples.single(0x7F, 0x08, new Bytes().text("abc")).build());
         Check.fault("a text without end", 2, Samples.single(0x7F, 0x08, new Bytes().raw(65, 66)).build());
         String known = " 1 11 5 6 7 13 15 33 25 8 14 31 37 19 23 27 35 24 ";
@@ -155,6 +157,19 @@ public final class UnitFaultTest {
         entries("a long end", 0, 2, 3, 0x80, 0);
     }
 
+    /** As many entries as there may be, all with values that are kept. */
+    private static void most() {
+        Dwarf d = new Dwarf().abbrev(1, 0x11, 1).abbrev(2, 0x2E, 0, 0x03, 0x08, 0x11, 0x01, 0x12, 0x19, 0x59, 0x19);
+        d.abbrev(3, 0x0B, 0, 0x58, 0x21, 5, 0x59, 0x21, 6).endAbbrevs();
+        Bytes e = new Bytes().u1(1);
+        for (int i = 0; i < 198; i++) {
+            e.u1(3);
+        }
+        FrameFinder x = Check.opened("most", d.unit(e.u1(2).text("last").u8(77).u1(0)).build());
+        Check.same("entries", x.count(2), 200);
+        Check.same("frames", Check.frames(x, 77), "last@:0");
+    }
+
     private static void limits() {
         for (int n = 16; n <= 17; n++) {
             Bytes e = new Bytes().u1(2);
@@ -175,6 +190,7 @@ public final class UnitFaultTest {
             }
             Check.fault(n + 1 + " entries of two units", n == 199 ? 0 : 2, d.unit(e.u1(0)).build());
         }
+        most();
         Dwarf d = bare();
         for (int n = 1; n <= 5; n++) {
             d.unit(new Bytes().u1(1));
