@@ -75,26 +75,54 @@ final class Check {
         return x;
     }
 
-    /** The file has a fault (0: none), as a new object says. */
+    /** An object that has read another file before, and found frames in it. */
+    static FrameFinder used() {
+        FrameFinder x = loaded(Samples.ALL);
+        same("open() of the file before", tryOpen(x), 3);
+        same("find() in the file before", tryFind(x, 0x1010), 2);
+        x.clear();
+        return x;
+    }
+
+    /** The file has a fault (0: none), as a new object says, and one that has read another file before. */
     static void fault(String what, int want, byte[] file) {
-        FrameFinder x = loaded(file);
+        fault(what, want, file, new FrameFinder());
+        fault(what + ", by a used object", want, file, used());
+    }
+
+    private static void fault(String what, int want, byte[] file, FrameFinder x) {
+        load(x, file);
         same(what + ": open() throws", tryOpen(x) == -2 ? 1 : 0, want == 0 ? 0 : 1);
         same(what + ": fault()", x.fault(), want);
         same(what + ": count(0) < 0", x.count(0) < 0 ? 1 : 0, want == 0 ? 0 : 1);
+        same(what + ": find() throws", tryFind(x, 0) == -2 ? 1 : 0, want == 0 ? 0 : 1);
+    }
+
+    /** The frames of an address in a file, by a new object and by a used one. */
+    static void frames(String what, byte[] file, long address, String want) {
+        same(what, frames(opened(what, file), address), want);
+        FrameFinder x = used();
+        load(x, file);
+        no(what + ": open() of a used object throws", tryOpen(x) == -2);
+        same(what + ", by a used object", frames(x, address), want);
     }
 
     static String name(FrameFinder x, int i) {
         StringBuilder text = new StringBuilder();
-        for (int k = 0; k < 3000 && x.name(i, k) != FrameFinder.NONE; k++) {
-            text.append((char) x.name(i, k));
+        int now = x.name(i, 0);
+        for (int k = 1; k <= 3000 && now != FrameFinder.NONE; k++) {
+            text.append((char) now);
+            now = x.name(i, k);
         }
         return text.toString();
     }
 
     static String file(FrameFinder x, int i) {
         StringBuilder text = new StringBuilder();
-        for (int k = 0; k < 3000 && x.file(i, k) != FrameFinder.NONE; k++) {
-            text.append((char) x.file(i, k));
+        int now = x.file(i, 0);
+        for (int k = 1; k <= 3000 && now != FrameFinder.NONE; k++) {
+            text.append((char) now);
+            now = x.file(i, k);
         }
         return text.toString();
     }

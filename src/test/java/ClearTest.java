@@ -18,11 +18,22 @@ public final class ClearTest {
         Check.load(x, Samples.plain().build());
         Check.same("open() anew", Check.tryOpen(x), 6);
         Check.same("frames", Check.frames(x, 0x1000), "main@b.h:5");
+        room();
+        smaller();
+        Check.end();
+    }
+
+    private static void room() {
+        FrameFinder x = Check.loaded(single());
         x.clear();
         for (int i = 0; i < 375; i++) {
             Check.yes("there is room for all", x.load(8, 0));
         }
         Check.no("and no more", x.load(1, 0));
+    }
+
+    private static void smaller() {
+        FrameFinder x = Check.opened("larger", Samples.plain().build());
         x.clear();
         Check.load(x, single());
         Check.same("a smaller file behind a larger one", Check.tryOpen(x), 1);
@@ -38,7 +49,6 @@ public final class ClearTest {
         Check.same("the same of kind 8", Check.tryOpen(x), 0);
         Check.same("has no symbols", x.count(5), 0);
         Check.same("and none is found", x.find(5), 0);
-        Check.end();
     }
 
     private static byte[] single() {

@@ -43,26 +43,25 @@ final class Dwarf {
         return this;
     }
 
+    static final String[] TITLES = {
+        ".debug_abbrev", ".debug_info", ".debug_str", ".debug_line_str", ".debug_str_offsets", ".debug_addr",
+        ".debug_rnglists", ".debug_line", ".symtab", ".strtab"};
+
+    /** The sections in the order of their titles. */
+    Bytes[] parts() {
+        return new Bytes[] {abbrev, info, str, lineStr, strOffsets, addr, rnglists, line, symtab, strtab};
+    }
+
     Elf elf() {
         Elf elf = new Elf();
-        add(elf, ".debug_abbrev", abbrev);
-        add(elf, ".debug_info", info);
-        add(elf, ".debug_str", str);
-        add(elf, ".debug_line_str", lineStr);
-        add(elf, ".debug_str_offsets", strOffsets);
-        add(elf, ".debug_addr", addr);
-        add(elf, ".debug_rnglists", rnglists);
-        add(elf, ".debug_line", line);
-        add(elf, ".symtab", symtab);
-        add(elf, ".strtab", strtab);
+        Bytes[] parts = parts();
+        for (int i = 0; i < parts.length; i++) {
+            if (parts[i].size() != 0) {
+                elf.add(TITLES[i], parts[i]);
+            }
+        }
         return elf;
     }
 
     byte[] build() { return elf().build(); }
-
-    private static void add(Elf elf, String title, Bytes bytes) {
-        if (bytes.size() != 0) {
-            elf.add(title, bytes);
-        }
-    }
 }

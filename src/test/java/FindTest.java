@@ -8,6 +8,13 @@ public final class FindTest {
         passed();
         deep();
         withoutSign();
+        between();
+        order();
+        noOther();
+        kindsOfSymbols();
+        edgesOfSymbols();
+        beforeSymbols();
+        usedObject();
         Check.end();
     }
 
@@ -175,5 +182,105 @@ public final class FindTest {
         due("high", x, 0xF0000000000000FFL, "high@:0");
         due("an end that wrapped", x, -1, "");
         due("an end that wrapped, behind", x, 0, "");
+    }
+
+    /** What is put in counts through blocks alone, not through an entry of any other tag. */
+    private static void between() {
+        for (int tag = 0; tag < 0x60; tag++) {
+            if (tag == 0x11) {
+                continue;
+            }
+            Dwarf d = new Dwarf().abbrev(1, 0x11, 1).abbrev(2, 0x2E, 1, 0x11, 0x01, 0x12, 0x19).abbrev(3, tag, 1);
+            d.abbrev(4, 0x1D, 0, 0x11, 0x01, 0x12, 0x19, 0x59, 0x19).abbrev(5, 0x0B, 1).endAbbrevs();
+            d.unit(new Bytes().u1(1).u1(2).u8(5).u1(3).u1(4).u8(5).raw(0, 0, 0));
+            d.unit(new Bytes().u1(1).u1(2).u8(6).u1(5).u1(3).u1(4).u8(6).raw(0, 0, 0, 0));
+            d.unit(new Bytes().u1(1).u1(2).u8(7).u1(3).u1(5).u1(4).u8(7).raw(0, 0, 0, 0));
+            for (long address = 5; address <= 7; address++) {
+                Check.frames("by tag " + tag, d.build(), address, tag == 0x0B ? "@:0 @:1" : "@:0");
+            }
+        }
+    }
+
+    /** The first in the order of entries counts, directly or by blocks, and no way leads back from it. */
+    private static void order() {
+        Bytes e = new Bytes();
+        Samples.function(e, "f", 0x100, 0x10).u1(Samples.BARE_BLOCK);
+        Samples.putIn(e, "blocked", 0x100, 0x10, 0, 1).u1(0).u1(0);
+        Samples.putIn(e, "direct", 0x100, 0x10, 0, 2).u1(0).u1(0);
+        Samples.function(e, "g", 0x200, 0x10);
+        Samples.putIn(e, "direct", 0x200, 0x10, 0, 3).u1(0).u1(Samples.BARE_BLOCK);
+        Samples.putIn(e, "blocked", 0x200, 0x10, 0, 4);
+        Samples.putIn(e, "deeper", 0x200, 0x10, 0, 5).raw(0, 0, 0, 0);
+        Samples.function(e, "h", 0x300, 0x10);
+        Samples.putIn(e, "elsewhere", 0x310, 0x10, 0, 6);
+        Samples.putIn(e, "inside", 0x300, 0x20, 0, 7).raw(0, 0, 0);
+        FrameFinder x = opened("order", e);
+        due("a block first", x, 0x100, "blocked@:0 f@:1");
+        due("a block behind", x, 0x200, "direct@:0 g@:3");
+        due("in one that does not hold it", x, 0x300, "h@:0");
+        due("in one whose function does not", x, 0x310, "");
+    }
+
+    /** Blocks, units and what is put in are no functions, though they hold the address. */
+    private static void noOther() {
+        Dwarf d = new Dwarf().abbrev(1, 0x11, 1, 0x11, 0x01, 0x12, 0x0B).abbrev(2, 0x0B, 0, 0x11, 0x01, 0x12, 0x0B);
+        d.abbrev(3, 0x1D, 0, 0x11, 0x01, 0x12, 0x0B).abbrev(4, 0x2F, 0, 0x11, 0x01, 0x12, 0x0B).endAbbrevs();
+        d.unit(new Bytes().u1(1).u8(5).u1(5).u1(2).u8(5).u1(5).u1(3).u8(5).u1(5).u1(4).u8(5).u1(5).u1(0));
+        Check.frames("no function", d.build(), 5, "");
+        Check.frames("a symbol then", d.symbol("s", 2, 5, 1).build(), 5, "s@:0");
+    }
+
+    private static void kindsOfSymbols() {
+        for (int kind = 0; kind < 256; kind++) {
+            Dwarf d = new Dwarf().symbol("no", kind ^ 1, 5, 1).symbol("s", kind, 5, 1);
+            boolean other = (kind ^ 1) % 16 == 2;
+            Check.frames("kind " + kind, d.build(), 5, kind % 16 == 2 ? "s@:0" : other ? "no@:0" : "");
+        }
+    }
+
+    private static void edgesOfSymbols() {
+        long[][] spans = {{5, 1}, {5, 0}, {0, 1}, {0, -1}, {1, -2}, {-1, 1}, {-1, 0}, {-2, 1}, {-2, 2}, {1L << 63, 1}, {5, -3}};
+        for (long[] span : spans) {
+            byte[] file = new Dwarf().symbol("s", 2, span[0], span[1]).build();
+            long end = span[0] + span[1];
+            for (long address : new long[] {0, 1, 2, 4, 5, 6, Long.MAX_VALUE, 1L << 63, 1L << 63 | 1, -3, -2, -1}) {
+                boolean covers = Long.compareUnsigned(address, span[0]) >= 0 && Long.compareUnsigned(address, end) < 0;
+                String what = span[1] + " bytes from " + span[0] + " on";
+                Check.frames(what + " at " + address, file, address, covers ? "s@:0" : "");
+            }
+        }
+    }
+
+    /** A function without a name has no other, though a symbol covers the address. */
+    private static void beforeSymbols() {
+        Dwarf d = new Dwarf().abbrev(1, 0x11, 1).abbrev(2, 0x2E, 0, 0x11, 0x01, 0x12, 0x19).endAbbrevs();
+        d.unit(new Bytes().u1(1).u1(2).u8(5).u1(0));
+        Check.frames("no name", d.symbol("s", 2, 5, 2).build(), 5, "@:0");
+        Check.frames("a symbol behind it", d.build(), 6, "s@:0");
+    }
+
+    /** Entries of a file that was read before lend no values to those of the next one. */
+    private static void usedObject() {
+        Dwarf rich = new Dwarf().abbrev(1, 0x11, 1, 0x11, 0x01, 0x12, 0x0B, 0x72, 0x17, 0x73, 0x17, 0x74, 0x17);
+        rich.abbrev(2, 0x2E, 1, 0x03, 0x08, 0x11, 0x01, 0x12, 0x0B, 0x31, 0x13, 0x58, 0x0B, 0x59, 0x0B);
+        rich.abbrev(3, 0x1D, 0, 0x03, 0x08, 0x11, 0x01, 0x12, 0x0B, 0x55, 0x17, 0x31, 0x13, 0x58, 0x0B, 0x59, 0x0B).endAbbrevs();
+        int function = 12 + 22;
+        Bytes e = new Bytes().u1(1).u8(5).u1(9).u4(4).u4(4).u4(4);
+        e.u1(2).text("f").u8(5).u1(9).u4(function).u1(1).u1(7);
+        e.u1(3).text("p").u8(5).u1(9).u4(0).u4(function).u1(1).u1(7);
+        rich.unit(e.u1(0).u1(0));
+        rich.rnglists.u1(6).u8(5).u8(9).u1(0);
+        Dwarf poor = new Dwarf().abbrev(1, 0x11, 1).abbrev(2, 0x2E, 1, 0x11, 0x1B, 0x12, 0x0B).abbrev(3, 0x1D, 0, 0x11, 0x1B, 0x12, 0x0B);
+        poor.endAbbrevs().unit(new Bytes().u1(1).u1(2).uleb(0).u1(20).u1(3).uleb(0).u1(10).u1(0).u1(0));
+        poor.addr.u8(100);
+        FrameFinder x = Check.opened("rich", rich.build());
+        due("rich", x, 5, "p@:0 f@:7");
+        x.clear();
+        Check.load(x, poor.build());
+        Check.same("open() of the poor one", Check.tryOpen(x), 3);
+        due("poor", x, 105, "@:0 @:0");
+        due("poor", x, 110, "@:0");
+        due("poor", x, 5, "");
+        Check.same("its ranges", x.count(3), 2);
     }
 }

@@ -8,6 +8,14 @@ public final class LineFaultTest {
         ends();
         codes();
         rows();
+        headBytes();
+        lengthOfTable();
+        lengthOfHead();
+        howMany();
+        formBytes();
+        namesAmongOthers();
+        everyCode();
+        everyExtended();
         Check.end();
     }
 
@@ -31,7 +39,8 @@ public final class LineFaultTest {
             case 3: t.leastStep = to; break;
             case 4: t.operations = to; break;
             case 5: t.lineRange = to; break;
-            default: t.lineBase = to;
+            case 6: t.lineBase = to; break;
+            default: t.rowsCount = to;
         }
         return t;
     }
@@ -248,6 +257,162 @@ public final class LineFaultTest {
             if (all <= 400) {
                 Check.same(all + " rows", Check.opened("rows", d.build()).count(4), all);
             }
+        }
+    }
+
+    /** Every value of each byte of the head. */
+    private static void headBytes() {
+        int[] right = {5, 8, 0, 1, 1};
+        for (int value = 0; value < 256; value++) {
+            for (int which = 0; which < right.length; which++) {
+                table("head " + which + " as " + value, value == right[which] ? 0 : 4, bent(which, value));
+            }
+            table("version with a high byte", value == 0 ? 0 : 4, bent(0, value << 8 | 5));
+            table("line range " + value, value == 0 ? 4 : 0, bent(5, value));
+            table("line base " + value, 0, bent(6, value));
+            table("whether rows count " + value, 0, bent(7, value));
+            LineTable t = new LineTable();
+            t.first = value;
+            t.operands = new Bytes().raw(new int[Math.max(0, value - 1)]);
+            table("first special code " + value, value >= 10 && value <= 200 ? 0 : 4, t);
+        }
+    }
+
+    /** The rows of a table, -1 when the file has a fault. */
+    private static int rowsOf(Bytes line) {
+        FrameFinder x = Check.loaded(file(line));
+        if (Check.tryOpen(x) == -2) {
+            Check.same("fault()", x.fault(), 4);
+            return -1;
+        }
+        return x.count(4);
+    }
+
+    /** Behind the table stand bytes that would be rows, up to the end of the section. */
+    private static void lengthOfTable() {
+        int size = new LineTable().build().size();
+        for (int more = -size; more <= 12; more++) {
+            LineTable t = new LineTable();
+            t.program.raw(1, 1, 1, 1, 1);
+            t.moreLength = more;
+            int due = more < -5 || more > 4 ? -1 : 5 + more;
+            Check.same("length and " + more, rowsOf(t.build().raw(1, 1, 1, 1)), due);
+        }
+    }
+
+    /** What was read of the head ends with a byte that would be a row too. */
+    private static void lengthOfHead() {
+        int size = new LineTable().build().size();
+        for (int more = -size; more <= 12; more++) {
+            LineTable t = new LineTable();
+            t.files = new Bytes().u1(1).uleb(2).uleb(0x0B).uleb(4).raw(1, 1, 1, 1);
+            t.program.raw(1, 1, 1, 1, 1);
+            t.moreHead = more;
+            int due = more < 0 || more > 5 ? -1 : 5 - more;
+            Check.same("length of the head and " + more, rowsOf(t.build()), due);
+        }
+    }
+
+    /** Each number of forms, of folders and of files. */
+    private static void howMany() {
+        for (int n = 0; n < 256; n++) {
+            both(n + " forms", n <= 6 ? 0 : 4, names(n, n == 0 ? 0 : 2, 2));
+        }
+        for (int n = 0; n <= 64; n++) {
+            files(n + "", n <= 30 ? 0 : 4, names(1, n, n));
+            folders(n + "", 0, names(1, n, n));
+            both(n + " and one less there", 4, names(1, n, n + 1));
+        }
+        for (long n : new long[] {128, 256, 256 + 1, 1L << 31, 1L << 32, 1L << 32 | 1, 1L << 63, 1L << 63 | 1, -1}) {
+            files(n + " without forms", 4, names(0, 0, n));
+            folders(n + " without forms", 0, names(0, 0, n));
+            both(n + "", 4, names(1, 1, n));
+        }
+    }
+
+    /** Every form of what is no name and of the name; as a place each value would be there. */
+    private static void formBytes() {
+        String known = " 8 31 11 5 15 ";
+        for (int form = 0; form < 256; form++) {
+            boolean isKnown = known.contains(" " + form + " ");
+            Bytes value = form == 0x1F ? new Bytes().u4(0) : form == 0x05 ? new Bytes().u2(0) : new Bytes().u1(0);
+            both("what 2 of form " + form, isKnown ? 0 : 4, one(value, 2, form));
+            both("what 1 of form " + form, form == 0x08 || form == 0x1F ? 0 : 4, one(value, 1, form));
+            Bytes second = new Bytes().text("n").all(value);
+            both("a second what 1 of form " + form, isKnown ? 0 : 4, one(second, 1, 8, 1, form));
+            both("form " + form + " of none", isKnown ? 0 : 4, new Bytes().u1(1).uleb(2).uleb(form).uleb(0));
+        }
+        for (int what : new int[] {0, 2, 3, 4, 5, 127, 128, 0x101, 0x2001}) {
+            both("what " + what + " is no name", 0, one(new Bytes().u1(0), what, 0x0B));
+        }
+    }
+
+    /** Only the name must lead to a text, wherever it stands among the others. */
+    private static void namesAmongOthers() {
+        both("another that leads nowhere", 0, one(new Bytes().u4(99).text("n"), 2, 0x1F, 1, 8));
+        both("another behind", 0, one(new Bytes().text("n").u4(99), 1, 8, 2, 0x1F));
+        both("the sixth leads nowhere", 4,
+            one(new Bytes().raw(1, 2, 3, 4, 5).u4(99), 2, 0x0B, 2, 0x0B, 2, 0x0B, 2, 0x0B, 2, 0x0B, 1, 0x1F));
+        both("the sixth is there", 0,
+            one(new Bytes().raw(1, 2, 3, 4, 5).u4(0), 2, 0x0B, 2, 0x0B, 2, 0x0B, 2, 0x0B, 2, 0x0B, 1, 0x1F));
+        both("far behind", 4, one(new Bytes().u4(0xFFFFFFFFL), 1, 0x1F));
+        both("no text of its own", 4, one(new Bytes().u4(0).raw(1, 1), 1, 0x1F, 2, 0x08, 2, 0x0F));
+    }
+
+    /** How many bytes stand behind a code, each ULEB having two; -1: the code 0. */
+    private static int behind(int code, int first, int[] operands) {
+        if (code >= first || code == 1 || code == 6 || code == 7 || code == 8 || code == 10 || code == 11) {
+            return 0;
+        }
+        if (code == 9 || code == 12 || code >= 2 && code <= 5) {
+            return 2;
+        }
+        return code == 0 ? -1 : 2 * operands[code - 1];
+    }
+
+    private static void everyCode() {
+        for (int first : new int[] {10, 11, 12, 13, 14, 100, 200}) {
+            int[] operands = new int[first - 1];
+            for (int i = 0; i < operands.length; i++) {
+                operands[i] = (i + 2) % 4;
+            }
+            for (int code = 1; code < 256; code++) {
+                LineTable t = new LineTable();
+                t.first = first;
+                t.operands = new Bytes().raw(operands);
+                t.program.u1(code);
+                int n = behind(code, first, operands);
+                for (int i = 0; i + 1 < n; i += 2) {
+                    t.program.raw(0x81, 1);
+                }
+                int rows = code >= first || code == 1 ? 1 : 0;
+                String what = "first " + first + ", code " + code;
+                Check.same(what, rowsOf(t.build()), rows);
+                t.program.u1(1);
+                Check.same(what + " and a row", rowsOf(t.build()), rows + 1);
+                if (n == 2) {
+                    t.program = new Bytes().u1(code).u1(0x80);
+                    table(what + " cut off", 4, t);
+                }
+            }
+        }
+    }
+
+    /** Every extended code of every length up to 12. */
+    private static void everyExtended() {
+        for (int what = 0; what < 256; what++) {
+            for (int length = 0; length <= 12; length++) {
+                LineTable t = new LineTable();
+                t.program.u1(0).uleb(length).u1(what).raw(new int[Math.max(0, length - 1)]);
+                // Two rows behind it, so that too many bytes passed are seen as well.
+                t.program.raw(1, 1);
+                boolean fine = length >= 1 && (what != 2 || length >= 9);
+                String name = "extended " + what + " of " + length;
+                Check.same(name, rowsOf(t.build()), fine ? (what == 1 ? 3 : 2) : -1);
+            }
+            LineTable cut = new LineTable();
+            cut.program.u1(0).uleb(12).u1(what).raw(new int[10]);
+            table("extended " + what + " a byte too long", 4, cut);
         }
     }
 }

@@ -5,6 +5,7 @@ final class LineTable {
     int selectorSize = 0;
     int leastStep = 1;
     int operations = 1;
+    int rowsCount = 7;
     int lineBase = -3;
     int lineRange = 10;
     int first = 13;
@@ -32,7 +33,7 @@ final class LineTable {
     }
 
     Bytes build() {
-        Bytes head = new Bytes().u1(leastStep).u1(operations).u1(7).u1(lineBase).u1(lineRange).u1(first);
+        Bytes head = new Bytes().u1(leastStep).u1(operations).u1(rowsCount).u1(lineBase).u1(lineRange).u1(first);
         head.all(operands).all(folders).all(files).all(gap);
         Bytes rest = new Bytes().u2(version).u1(addressSize).u1(selectorSize).u4(head.size() + moreHead);
         rest.all(head).all(program);

@@ -7,6 +7,9 @@ public final class LineTest {
         sequences();
         withoutSign();
         twoUnits();
+        specials();
+        goingOn();
+        wrapping();
         Check.end();
     }
 
@@ -217,5 +220,85 @@ public final class LineTest {
         due("higher", x, 0xEFFFFFFFFFFFFFFFL, 2);
         due("end", x, 0xF000000000000000L, 0);
         due("zero", x, 0, 0);
+    }
+
+    /** A row at an address only, its end being one behind: the line is due there, and none around it. */
+    private static void alone(String what, LineTable t, long address, int line) {
+        t.program.raw(2, 1, 0, 1, 1);
+        FrameFinder x = opened(what, t);
+        due(what + ": before", x, address - 1, 0);
+        due(what, x, address, line);
+        due(what + ": behind", x, address + 1, 0);
+    }
+
+    /** Every special code of several heads. */
+    private static void specials() {
+        int[][] heads = {{-3, 10, 13}, {0, 1, 10}, {-128, 255, 200}, {127, 255, 10}, {-1, 4, 10}, {-5, 14, 13}, {1, 128, 11}};
+        for (int[] h : heads) {
+            for (int code = h[2]; code < 256; code++) {
+                LineTable t = head(h);
+                // From 1000 on, so that there is an address before the row.
+                t.program.raw(2, 0xE8, 7).u1(code);
+                int s = code - h[2];
+                alone("special " + code + " of first " + h[2], t, 1000 + s / h[1], 1 + h[0] + s % h[1]);
+            }
+            LineTable t = head(h);
+            t.program.raw(2, 0xE8, 7).raw(8, 8, 1);
+            alone("8 of first " + h[2], t, 1000 + 2 * ((255 - h[2]) / h[1]), 1);
+        }
+    }
+
+    private static LineTable head(int[] h) {
+        LineTable t = new LineTable();
+        t.lineBase = h[0];
+        t.lineRange = h[1];
+        t.first = h[2];
+        t.operands = new Bytes().raw(new int[h[2] - 1]);
+        return t;
+    }
+
+    private static void goingOn() {
+        LineTable u2 = new LineTable();
+        u2.program.raw(9, 0xFF, 0xFF, 9, 0xFE, 0xFF, 1);
+        alone("9 without sign", u2, 0xFFFF + 0xFFFE, 1);
+        LineTable uleb = new LineTable();
+        uleb.program.u1(2).uleb(1L << 62).u1(2).uleb(1L << 62).u1(1);
+        alone("2 beyond the highest long", uleb, 1L << 63, 1);
+        LineTable set = new LineTable();
+        set.program.raw(2, 99).raw(0, 9, 2).u8(0x8877665544332211L).u1(1);
+        alone("the address is", set, 0x8877665544332211L, 1);
+        LineTable lines = new LineTable();
+        lines.program.raw(2, 9, 3, 100, 3, 0xBF, 0x7F, 15, 14, 1);
+        alone("3 again and again, and special codes", lines, 9, 1 - 28 - 65 - 1 - 2);
+        LineTable nothing = new LineTable();
+        nothing.program.raw(2, 9, 5, 77, 6, 7, 10, 11, 12, 77, 1);
+        alone("nothing", nothing, 9, 1);
+        LineTable passed = new LineTable();
+        passed.program.raw(2, 9, 0, 9, 3, 1, 1, 1, 1, 1, 1, 1, 1, 0, 2, 4, 1, 0, 12, 0x80).raw(new int[11]).u1(1);
+        alone("others are passed", passed, 9, 1);
+    }
+
+    /** Addresses and lines that go on beyond their highest. */
+    private static void wrapping() {
+        int[][] codes = {{2, 24}, {8}, {9, 24, 0}, {255}};
+        for (int[] code : codes) {
+            LineTable t = new LineTable();
+            t.program.raw(0, 9, 2).u8(-4).raw(code);
+            if (code[0] != 255) {
+                t.program.u1(1);
+            }
+            alone("wraps by " + code[0], t, 20, code[0] == 255 ? 0 : 1);
+        }
+        LineTable up = new LineTable();
+        up.program.raw(2, 9, 3).sleb(Integer.MAX_VALUE - 1).u1(17);
+        alone("a line that wraps by a special code", up, 9, Integer.MIN_VALUE);
+        LineTable down = new LineTable();
+        down.program.raw(2, 9, 3).sleb(Integer.MIN_VALUE).u1(13);
+        alone("a line that wraps down", down, 9, Integer.MAX_VALUE - 1);
+        for (long by : new long[] {1L << 31, 1L << 32, 1L << 33 | 5, Long.MAX_VALUE, Long.MIN_VALUE, -1}) {
+            LineTable far = new LineTable();
+            far.program.raw(2, 9, 3).sleb(by).u1(1);
+            alone("a line by " + by, far, 9, (int) (1 + by));
+        }
     }
 }

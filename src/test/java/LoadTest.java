@@ -4,6 +4,8 @@ public final class LoadTest {
         counts();
         bytes();
         limit();
+        rest();
+        order();
         reading();
         Check.end();
     }
@@ -21,7 +23,8 @@ public final class LoadTest {
 
     /** Of what is given only the n lowest bytes count, and what is refused leaves nothing. */
     private static void bytes() {
-        byte[] file = Samples.plain().build();
+        // Small, for an object is used for 512 calls only.
+        byte[] file = new Elf().build();
         for (int n = 1; n <= 8; n++) {
             FrameFinder x = new FrameFinder();
             for (int at = 0; at < file.length; at += n) {
@@ -33,7 +36,8 @@ public final class LoadTest {
                 Check.no("load(9)", x.load(9, bytes));
                 Check.yes("load(" + now + ")", x.load(now, bytes));
             }
-            Check.same("open() by " + n, Check.tryOpen(x), 6);
+            Check.same("open() by " + n, Check.tryOpen(x), 0);
+            Check.same("sections by " + n, x.count(0), 2);
         }
     }
 
@@ -55,6 +59,39 @@ public final class LoadTest {
         Check.no("load(2) of one too many", y.load(2, 0));
         Check.yes("load(1) up to the end", y.load(1, 0));
         Check.no("load(1) of one too many", y.load(1, 0));
+    }
+
+    /** Every n where so many bytes are left: what is refused leaves as much room as before. */
+    private static void rest() {
+        for (int left = 0; left <= 8; left++) {
+            for (int n = -1; n <= 10; n++) {
+                FrameFinder x = new FrameFinder();
+                for (int i = 0; i < 374; i++) {
+                    Check.yes("load(8)", x.load(8, 0));
+                }
+                Check.same("load() up to what is left", x.load(8 - left, 0) ? 1 : 0, left < 8 ? 1 : 0);
+                boolean due = n >= 1 && n <= 8 && n <= left;
+                Check.same("load(" + n + ") of " + left, x.load(n, -1) ? 1 : 0, due ? 1 : 0);
+                int still = due ? left - n : left;
+                Check.no("one more than is left then", x.load(still + 1, -1));
+                Check.same("what is left then", x.load(still, -1) ? 1 : 0, still > 0 ? 1 : 0);
+                Check.no("none then", x.load(1, -1));
+            }
+        }
+    }
+
+    /** The lowest byte first, whatever stands above the n lowest. */
+    private static void order() {
+        byte[] file = new Elf().build();
+        for (int n = 1; n <= 8; n++) {
+            FrameFinder x = new FrameFinder();
+            long head = 0x0001010246_4C457FL;
+            Check.yes("load() of the first bytes", x.load(n, n == 8 ? head : head | -1L << (8 * n)));
+            for (int at = n; at < file.length; at++) {
+                Check.yes("load(1)", x.load(1, file[at] & 0xFF | 0x5A00));
+            }
+            Check.same("open()", Check.tryOpen(x), 0);
+        }
     }
 
     private static void reading() {

@@ -52,6 +52,29 @@ final class Samples {
         return d.symbol("sym", 0x12, 0x3000, 0x10).symbol("data", 0x11, 0x4000, 0x10);
     }
 
+    /** The file of all(), made once. */
+    static final byte[] ALL = all().build();
+
+    /** 3 entries that need something of all ten sections. */
+    static Dwarf all() {
+        Dwarf d = new Dwarf();
+        d.abbrev(1, 0x11, 1, 0x03, 0x25, 0x10, 0x17, 0x72, 0x17, 0x73, 0x17, 0x74, 0x17, 0x11, 0x1B);
+        d.abbrev(2, 0x2E, 1, 0x03, 0x0E, 0x55, 0x23);
+        d.abbrev(3, 0x1D, 0, 0x03, 0x1F, 0x11, 0x1B, 0x12, 0x0B, 0x58, 0x0B, 0x59, 0x0B).endAbbrevs();
+        Bytes e = new Bytes().u1(1).u1(0).u4(0).u4(4).u4(8).u4(4).uleb(0);
+        e.u1(2).u4(5).uleb(0).u1(3).u4(0).uleb(1).u1(0x10).u1(0).u1(5).u1(0).u1(0);
+        d.unit(e);
+        d.str.text("unit").text("fun");
+        d.strOffsets.u4(99).u4(0);
+        d.lineStr.text("in").text("x.c");
+        d.addr.u8(99).u8(0x1000).u8(0x1010);
+        d.rnglists.u4(99).u4(4).u1(4).uleb(0).uleb(0x40).u1(0);
+        LineTable t = new LineTable();
+        t.files = new Bytes().u1(1).uleb(1).uleb(0x1F).uleb(2).u4(3).u4(3);
+        d.line.all(t.row(0x1000, 6).row(0x1010, 7).end(0x1040).build());
+        return d.symbol("s", 2, 0x3000, 0x10);
+    }
+
     /** A unit's own entry alone, with one attribute more than none. */
     static Dwarf single(long attribute, long form, Bytes value) {
         Dwarf d = new Dwarf();

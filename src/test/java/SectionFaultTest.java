@@ -8,6 +8,12 @@ public final class SectionFaultTest {
         places();
         names();
         chosen();
+        headBytes();
+        ends();
+        smallest();
+        tenNames();
+        inAnotherName();
+        usedObject();
         Check.end();
     }
 
@@ -132,5 +138,140 @@ public final class SectionFaultTest {
         Elf names = new Elf().add(".symtab", one);
         names.namesTitle = ".strtab";
         Check.same("names that are looked at", Check.opened("names", names.build()).count(5), 1);
+    }
+
+    /** Every value of the bytes of the head that must be just so. */
+    private static void headBytes() {
+        int[] places = {0, 1, 2, 3, 4, 5, 6, 0x3A, 0x3B, 0x3D, 0x3F};
+        for (int at : places) {
+            for (int value = 0; value < 256; value++) {
+                int due = value == (Samples.ALL[at] & 0xFF) ? 0 : 1;
+                Check.fault("byte " + at + " as " + value, due, put(Samples.ALL, at, 1, value));
+            }
+        }
+        Check.fault("headers of 63", 1, put(Samples.ALL, 0x3A, 2, 63));
+        int total = get(Samples.ALL, 0x3C);
+        for (int more : new int[] {25, 26, 255, 256, 0x100 + total, 0xFFFF}) {
+            Check.fault(more + " sections", 1, put(Samples.ALL, 0x3C, 2, more));
+        }
+        for (int which = total; which < 30; which++) {
+            Check.fault("names in " + which, 1, put(Samples.ALL, 0x3E, 2, which));
+        }
+    }
+
+    /** A section may end where the file does, but not behind. */
+    private static void ends() {
+        byte[] file = Samples.ALL;
+        int headers = get(file, HEADERS_AT);
+        for (int i = 1; i < get(file, 0x3C) - 1; i++) {
+            int header = headers + 64 * i;
+            long begin = get(file, header + 24);
+            for (int kind : new int[] {0, 1, 3, 7, 9, 0x808}) {
+                byte[] bent = put(file, header + 4, 4, kind);
+                Check.fault("section " + i + " of kind " + kind, 0, bent);
+                Check.fault("it ends behind", 1, put(bent, header + 32, 8, file.length - begin + 1));
+                Check.fault("it wraps", 1, put(bent, header + 32, 8, -begin));
+                Check.fault("it begins behind", 1, put(bent, header + 24, 8, file.length + 1));
+            }
+            byte[] nowhere = put(put(file, header + 24, 8, -1), header + 32, 8, -1);
+            Check.fault("section " + i + " nowhere", 1, nowhere);
+            Check.fault("of kind 8", DUE[i - 1], put(nowhere, header + 4, 4, 8));
+        }
+        // .debug_str and .debug_abbrev may have more behind what is used of them.
+        for (int i : new int[] {1, 3}) {
+            int header = headers + 64 * i;
+            long begin = get(file, header + 24);
+            Check.fault("section " + i + " up to the end of the file", 0, put(file, header + 32, 8, file.length - begin));
+        }
+    }
+
+    /** 80 bytes in which the head and a header lie over one another; 79 are too few for it. */
+    private static void smallest() {
+        Bytes head = new Bytes().raw(0x7F, 0x45, 0x4C, 0x46, 2, 1, 1, 0).u8(0).u4(0).u4(1).u8(0).u8(0).u8(16);
+        head.u8(1).u2(0).u2(64).u2(1).u2(0).u8(0).u8(0);
+        Check.same("its size", head.size(), 80);
+        Check.fault("80 bytes", 0, head.array());
+        Check.same("its sections", Check.opened("80", head.array()).count(0), 1);
+        for (int n = 0; n < 80; n++) {
+            Check.fault(n + " bytes", 1, java.util.Arrays.copyOf(head.array(), n));
+        }
+    }
+
+    /** The fault that is due when a section of Samples.ALL is empty, in the order of the titles. */
+    private static final int[] DUE = {2, 0, 3, 3, 3, 3, 3, 4, 0, 5};
+
+    private static Elf without(int which) {
+        Dwarf d = Samples.all();
+        Elf elf = new Elf();
+        for (int i = 0; i < DUE.length; i++) {
+            if (i != which) {
+                elf.add(Dwarf.TITLES[i], d.parts()[i]);
+            }
+        }
+        return elf;
+    }
+
+    private static void asEmpty(String what, int which, Elf elf) {
+        String all = what + ", " + Dwarf.TITLES[which];
+        byte[] file = elf.build();
+        Check.fault(all, DUE[which], file);
+        if (DUE[which] == 0) {
+            FrameFinder x = Check.opened(all, file);
+            Check.same(all + ": units", x.count(1), which == 1 ? 0 : 1);
+            Check.same(all + ": symbols", x.count(5), which == 8 ? 0 : 1);
+        }
+    }
+
+    private static void tenNames() {
+        for (int i = 0; i < DUE.length; i++) {
+            String title = Dwarf.TITLES[i];
+            Bytes bytes = Samples.all().parts()[i];
+            asEmpty("not there", i, without(i));
+            asEmpty("of no bytes", i, without(i).add(title, new Bytes()));
+            asEmpty("of kind 8", i, without(i).add(title, 8, bytes));
+            asEmpty("of kind 8 at first", i, without(i).add(title, 8, bytes).add(title, bytes));
+            asEmpty("of no bytes at first", i, without(i).add(title, new Bytes()).add(title, bytes));
+            asEmpty("longer", i, without(i).add(title + "x", bytes));
+            asEmpty("shorter", i, without(i).add(title.substring(0, title.length() - 1), bytes));
+            asEmpty("without its dot", i, without(i).add(title.substring(1), bytes));
+            asEmpty("capital", i, without(i).add(title.toUpperCase(), bytes));
+            for (int k = 0; k < title.length(); k++) {
+                char other = (char) (title.charAt(k) ^ 1);
+                asEmpty("other " + k, i, without(i).add(title.substring(0, k) + other + title.substring(k + 1), bytes));
+            }
+            Elf first = without(i).add(title, bytes).add(title, new Bytes()).add(title, 8, bytes).add(title, new Bytes().u1(9));
+            Check.frames("the first counts, " + title, first.build(), 0x1010, "in@x.c:7 fun@x.c:5");
+            Check.frames("the first counts, " + title, first.build(), 0x300F, "s@:0");
+        }
+    }
+
+    /** A name may stand in another one's end. */
+    private static void inAnotherName() {
+        Bytes one = new Bytes().u4(0).u1(2).u1(0).u2(0).u8(0x10).u8(0x10);
+        byte[] file = new Elf().add(".x.symtab", one).add(".strtab", new Bytes().u1(0)).build();
+        Check.same("as it stands", Check.opened("whole", file).count(5), 0);
+        int header = get(file, HEADERS_AT) + 64;
+        byte[] bent = put(file, header, 4, get(file, header) + 2);
+        Check.same("its end", Check.opened("end", bent).count(5), 1);
+    }
+
+    /** What an object has read before lends nothing to a file that has less. */
+    private static void usedObject() {
+        Elf many = new Elf();
+        for (int i = 0; i < 22; i++) {
+            many.add("s", new Bytes().text("s"));
+        }
+        byte[] small = new Elf().build();
+        byte[][] bents = {put(small, 0x3E, 2, 2), put(small, HEADERS_AT, 8, -1), put(small, HEADERS_AT, 8, 3000), new byte[0]};
+        for (int i = 0; i < bents.length; i++) {
+            FrameFinder x = Check.opened("many", many.build());
+            x.clear();
+            Check.load(x, small);
+            Check.same("open() of a small one", Check.tryOpen(x), 0);
+            x.clear();
+            Check.load(x, bents[i]);
+            Check.same("open() behind it, " + i, Check.tryOpen(x), -2);
+            Check.same("fault() behind it, " + i, x.fault(), 1);
+        }
     }
 }

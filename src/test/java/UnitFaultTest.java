@@ -8,6 +8,12 @@ public final class UnitFaultTest {
         numbers();
         nesting();
         limits();
+        headBytes();
+        tableBytes();
+        lengths();
+        places();
+        highNumbers();
+        otherTags();
         Check.end();
     }
 
@@ -195,6 +201,111 @@ public final class UnitFaultTest {
         for (int n = 1; n <= 5; n++) {
             d.unit(new Bytes().u1(1));
             Check.fault(n + " units", n <= 4 ? 0 : 2, d.build());
+        }
+    }
+
+    /** Every value of the bytes of a unit's head that must be just so. */
+    private static void headBytes() {
+        for (int at = 0; at < 4; at++) {
+            for (int value = 0; value < 256; value++) {
+                int[] head = {5, 0, 1, 8};
+                boolean same = head[at] == value;
+                head[at] = value;
+                info("byte " + (4 + at) + " as " + value, same ? 0 : 2, new Bytes().u4(9).raw(head).u4(0).u1(1));
+            }
+        }
+    }
+
+    /** Every value of the byte of children, and of a form. */
+    private static void tableBytes() {
+        String known = " 1 11 5 6 7 13 15 33 25 8 14 31 37 19 23 27 35 24 ";
+        for (int value = 0; value < 256; value++) {
+            Bytes children = new Bytes().raw(1, 0x11, 0, 0, 0, 2, 0x34).u1(value).raw(0, 0, 0);
+            table("children " + value, value <= 1 ? 0 : 2, children);
+            Bytes form = new Bytes().raw(1, 0x11, 0, 0, 0, 2, 0x34, 0, 5).uleb(value);
+            form = value == 0x21 ? form.sleb(9) : form;
+            table("form " + value, known.contains(" " + value + " ") ? 0 : 2, form.raw(0, 0, 0));
+        }
+        for (long form : new long[] {0x1F01, 0x1F02, 0x1F20, 0x1F21, 0x8001, 1L << 31 | 0x0B, 1L << 63 | 0x0B, -1}) {
+            table("form " + form, 2, new Bytes().raw(1, 0x11, 0, 0, 0, 2, 0x34, 0, 5).uleb(form).raw(0, 0, 0));
+        }
+        // Only 0 and 0 end the attributes: behind attribute 0 of a form more of them stand.
+        Dwarf zero = new Dwarf().abbrev(1, 0x11, 0, 0, 0x0B, 0x03, 0x08).endAbbrevs();
+        Check.fault("attribute 0 with a form", 0, zero.unit(new Bytes().u1(1).u1(7).text("n")).build());
+        for (long attribute : new long[] {1, 127, 128, 1L << 32, 1L << 63, -1}) {
+            table("attribute " + attribute + " of form 0", 2, new Bytes().raw(1, 0x11, 0).uleb(attribute).raw(0, 0, 0, 0));
+            table("attribute " + attribute, 0, new Bytes().raw(1, 0x11, 0).uleb(attribute).raw(0x19, 0, 0, 0));
+        }
+    }
+
+    /** Of every length of a unit just one is right, with another unit behind it too. */
+    private static void lengths() {
+        for (int behind = 0; behind <= 1; behind++) {
+            for (int length = 0; length < 40; length++) {
+                Bytes b = new Bytes().u4(length).u2(5).u1(1).u1(8).u4(0).u1(2).u1(3).u1(0);
+                if (behind == 1) {
+                    b.u4(9).u2(5).u1(1).u1(8).u4(0).u1(1);
+                }
+                info("length " + length + " before " + behind, length == 11 ? 0 : 2, b);
+            }
+        }
+        for (int n = 1; n < 13; n++) {
+            Bytes cut = new Bytes().u4(9).u2(5).u1(1).u1(8).u4(0).u1(1);
+            for (int i = 0; i < n; i++) {
+                cut.u1(i == 0 ? 9 : i == 4 ? 5 : i == 6 ? 1 : i == 7 ? 8 : 0);
+            }
+            info("a second unit of " + n + " bytes", 2, cut);
+        }
+    }
+
+    /** A place in .debug_abbrev where there is no table, or none that ends within. */
+    private static void places() {
+        Dwarf d = new Dwarf().abbrev(1, 0x11, 0).endAbbrevs();
+        int second = d.abbrev.size();
+        d.abbrev(2, 0x11, 0);
+        int open = d.abbrev.size();
+        int[] places = {0, second, open, open + 1, 0x7FFFFFFF, -1};
+        for (int place : places) {
+            Dwarf at = new Dwarf();
+            at.abbrev.all(d.abbrev);
+            at.unit(place & 0xFFFFFFFFL, new Bytes().u1(1));
+            Check.fault("abbreviations at " + place, place == 0 ? 0 : 2, at.build());
+            at.abbrev.u1(0);
+            Dwarf ended = new Dwarf();
+            ended.abbrev.all(at.abbrev);
+            ended.unit(place & 0xFFFFFFFFL, new Bytes().u1(2));
+            Check.fault("ended abbreviations at " + place, place == second ? 0 : 2, ended.build());
+        }
+        // Both units may use one table.
+        Dwarf both = new Dwarf().abbrev(1, 0x11, 0).endAbbrevs();
+        Check.fault("one table", 0, both.unit(0, new Bytes().u1(1)).unit(0, new Bytes().u1(1)).build());
+    }
+
+    /** Numbers of abbreviations are any but 0, each once. */
+    private static void highNumbers() {
+        for (long number : new long[] {127, 128, 1L << 31, 1L << 32, 1L << 63, -1}) {
+            Dwarf d = new Dwarf().abbrev(number, 0x11, 1).abbrev(1, 0x34, 0).abbrev(number ^ 2, 0x35, 0).endAbbrevs();
+            Check.fault("number " + number, 0, d.unit(new Bytes().uleb(number).u1(1).uleb(number ^ 2).u1(0)).build());
+            Dwarf twice = new Dwarf().abbrev(number, 0x11, 0).abbrev(1, 0x34, 0).abbrev(number, 0x35, 0).endAbbrevs();
+            Check.fault("number " + number + " twice", 2, twice.unit(new Bytes().uleb(number)).build());
+        }
+        Dwarf low = new Dwarf().abbrev(1, 0x11, 0).endAbbrevs();
+        for (long number : new long[] {1L << 32 | 1, 1L << 8 | 1, 1L << 16 | 1, 1L << 63 | 1}) {
+            Dwarf d = new Dwarf();
+            d.abbrev.all(low.abbrev);
+            Check.fault("entry of number " + number, 2, d.unit(new Bytes().uleb(number)).build());
+        }
+    }
+
+    /** The tag 0x11 for the first entry, and for no other. */
+    private static void otherTags() {
+        for (long tag : new long[] {0, 1, 0x0B, 0x10, 0x11, 0x12, 0x1D, 0x2E, 0x3C, 0x41, 0x4A, 0x111, 1L << 32 | 0x11, 1L << 63 | 0x11}) {
+            Dwarf first = new Dwarf().abbrev(1, tag, 0).endAbbrevs().unit(new Bytes().u1(1));
+            Check.fault("first of tag " + tag, tag == 0x11 ? 0 : 2, first.build());
+            Dwarf child = new Dwarf().abbrev(1, 0x11, 1).abbrev(2, tag, 0).endAbbrevs().unit(new Bytes().u1(1).u1(2).u1(0));
+            Check.fault("child of tag " + tag, tag == 0x11 ? 2 : 0, child.build());
+            Dwarf next = new Dwarf().abbrev(1, 0x11, 0).abbrev(2, tag, 0).endAbbrevs().unit(new Bytes().u1(1).u1(2));
+            Check.fault("behind the first, of tag " + tag, 2, next.build());
         }
     }
 }
