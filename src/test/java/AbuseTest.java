@@ -72,7 +72,7 @@ public final class AbuseTest {
 
     private static void frame(FrameFinder x, int i, boolean there, StringBuilder text) {
         text.append(' ').append(x.line(i));
-        for (int k = -1; k < 4; k++) {
+        for (int k = -1; k < 2; k++) {
             int name = x.name(i, k);
             int file = x.file(i, k);
             if (name < -1 || name > 255 || file < -1 || file > 255) {

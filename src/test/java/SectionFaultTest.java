@@ -14,6 +14,7 @@ public final class SectionFaultTest {
         tenNames();
         inAnotherName();
         usedObject();
+        atTheEnd();
         Check.end();
     }
 
@@ -257,8 +258,9 @@ public final class SectionFaultTest {
 
     /** What an object has read before lends nothing to a file that has less. */
     private static void usedObject() {
-        Elf many = new Elf();
-        for (int i = 0; i < 22; i++) {
+        // Its section 2 lies where the small file has its names.
+        Elf many = new Elf().add("s", new Bytes()).add("s", new Bytes().raw(new int[40]));
+        for (int i = 0; i < 20; i++) {
             many.add("s", new Bytes().text("s"));
         }
         byte[] small = new Elf().build();
@@ -272,6 +274,39 @@ public final class SectionFaultTest {
             Check.load(x, bents[i]);
             Check.same("open() behind it, " + i, Check.tryOpen(x), -2);
             Check.same("fault() behind it, " + i, x.fault(), 1);
+        }
+    }
+
+    /** A file of 3,000 bytes that ends with a section; then one whose section there lacks its last byte. */
+    private static void atTheEnd() {
+        int[] cut = {2, 2, 3, 4, 3, 3, 3, 4, 5, 5, 1};
+        for (int i = 0; i < cut.length; i++) {
+            for (int less = 0; less <= 1; less++) {
+                Dwarf d = Samples.all();
+                Elf elf = new Elf();
+                for (int k = 0; k < DUE.length; k++) {
+                    byte[] bytes = d.parts()[k].array();
+                    Bytes kept = new Bytes();
+                    for (int at = 0; at < bytes.length - (k == i ? less : 0); at++) {
+                        kept.u1(bytes[at]);
+                    }
+                    elf.add(Dwarf.TITLES[k], kept);
+                }
+                elf.last = i < DUE.length ? Dwarf.TITLES[i] : elf.namesTitle;
+                elf.padding = 3000 - elf.build().length;
+                byte[] file = elf.build();
+                // The names lack their last byte by their header alone.
+                int names = 64 + 64 * (DUE.length + 1);
+                if (i == DUE.length && less == 1) {
+                    file = put(file, names + 32, 8, get(file, names + 32) - 1);
+                }
+                Check.same("the most bytes", file.length, 3000);
+                Check.fault(elf.last + " at the end, less " + less, less == 0 ? 0 : cut[i], file);
+                if (less == 0) {
+                    Check.frames(elf.last + " at the end", file, 0x1010, "in@x.c:7 fun@x.c:5");
+                    Check.frames(elf.last + " at the end", file, 0x3000, "s@:0");
+                }
+            }
         }
     }
 }
