@@ -929,7 +929,7 @@ public final class FrameFinder {
                     return;
                 }
                 readPiece(unit, kind);
-                bad |= list.bad;
+                bad = bad || list.bad;
             }
         }
 
@@ -978,7 +978,7 @@ public final class FrameFinder {
             }
             sections.point(side, section, start + index * size);
             long number = side.number(size);
-            bad |= side.bad;
+            bad = bad || side.bad;
             return number;
         }
 
@@ -1189,7 +1189,7 @@ public final class FrameFinder {
                 long value = readValue(forms[i]);
                 if (i == nameForm) {
                     at = forms[i] == FORM_TEXT ? (int) value : sections.textAt(LINE_STR, value);
-                    cursor.bad |= at == NONE;
+                    cursor.bad = cursor.bad || at == NONE;
                 }
             }
             return at;
